@@ -54,10 +54,10 @@ public final class SheetPrinter {
         raster = new Raster(this.dpi);
         interpreter = new Interpreter(tape, page, sheet, fonts, macros, raster);
         picture = new PictureFile(tape);
-        coder = new Coder();
-        reader = new LineReader();
         file = new OutFile();
         shown = new OutFile();
+        coder = new Coder(file);
+        reader = new LineReader(tape);
         file.begin();
     }
 
@@ -190,16 +190,17 @@ public final class SheetPrinter {
         }
     }
 
-    /* Sheets are printed from here, not from within the commands: so what a command has left to do
-       behind the eject is told to the interpreter afterwards. */
+    /* Sheets are printed and fonts are chosen from here, not from within the commands, which only
+       ask for it: so calls do not go deep, and a command is finished when that is done. */
     private void printStream(int bytes) {
         interpreter.begin(bytes);
         for (int step = 0; step < MOST_STEPS && fault == 0 && interpreter.hasMore(); step++) {
-            interpreter.step();
+            interpreter.act(interpreter.next());
+            fonts.settle();
             if (interpreter.ejecting) {
                 fault = printSheet();
-                interpreter.ejected(fault != 0);
             }
+            interpreter.finish(fault != 0);
         }
     }
 
@@ -486,6 +487,10 @@ public final class SheetPrinter {
         private int[] line = new int[WIDEST_PICTURE];
         private int lineCount;
 
+        Coder(OutFile file) {
+            this.file = file;
+        }
+
         static int bitsOf(int word) {
             int bits = 0;
             for (int rest = word; rest > 1; rest >>= 1) {
@@ -583,7 +588,7 @@ public final class SheetPrinter {
             int next = 0;
             int over = 0;
             for (int words = 0; words <= width && a < width; words++) {
-                for (; over < aboveCount && above[over] <= a; over++) {
+                for (; over < aboveCount && over < above.length && above[over] <= a; over++) {
                     /* a only grows, so what it has passed stays passed */
                 }
                 int b = (over & 1) == colour ? over : over + 1;
@@ -714,7 +719,8 @@ public final class SheetPrinter {
         private int over;
         private int run;
 
-        LineReader() {
+        LineReader(byte[] bytes) {
+            this.bytes = bytes;
             addModes(LINE_BEGIN);
             addModes(IN_LINE);
             addWord(LINE_BEGIN, Coder.END, END);
@@ -776,7 +782,17 @@ public final class SheetPrinter {
                 return second < 0 ? -second : PICTURE_END;
             }
             for (int words = 0; words <= width; words++) {
-                int found = word < 0 ? -word : doWord(word);
+                int b = firstAbove();
+                int found;
+                if (word < 0) {
+                    found = -word;
+                } else if (word == PASS) {
+                    found = pass(Coder.changeAt(above, aboveCount, b + 1, width));
+                } else if (word == ACROSS) {
+                    found = goAcross();
+                } else {
+                    found = shift(Coder.changeAt(above, aboveCount, b, width) + word - Coder.MOST_SHIFT);
+                }
                 if (found != 0 || a >= width) {
                     return found;
                 }
@@ -796,18 +812,12 @@ public final class SheetPrinter {
             over = 0;
         }
 
-        private int doWord(int word) {
+        /* The number of b1 among the changes above. */
+        private int firstAbove() {
             for (; over < aboveCount && over < above.length && above[over] <= a; over++) {
                 /* a only grows, so what it has passed stays passed */
             }
-            int b = (over & 1) == colour ? over : over + 1;
-            if (word == PASS) {
-                return pass(Coder.changeAt(above, aboveCount, b + 1, width));
-            }
-            if (word == ACROSS) {
-                return goAcross();
-            }
-            return shift(Coder.changeAt(above, aboveCount, b, width) + word - Coder.MOST_SHIFT);
+            return (over & 1) == colour ? over : over + 1;
         }
 
         private int pass(int b2) {
@@ -1109,7 +1119,7 @@ public final class SheetPrinter {
         }
 
         private long rows() {
-            return value(ROWS, 0, height());
+            return value(ROWS, 0, value(HEIGHT, 0, 0));
         }
 
         long strips() {
@@ -1214,8 +1224,8 @@ public final class SheetPrinter {
             length = height() - 7200;
             left = 0;
             right = width();
-            x = 0;
-            goHome();
+            setX(0);
+            setY(home());
         }
 
         int sizeNumber() {
@@ -1315,7 +1325,7 @@ public final class SheetPrinter {
             if (below > height() || skip && below > top + length) {
                 return false;
             }
-            setY(below);
+            y = below;
             return true;
         }
 
@@ -1581,7 +1591,7 @@ public final class SheetPrinter {
         void layGlyph(FontShelf fonts, int glyph) {
             int width = fonts.ofGlyph(glyph, FontShelf.WIDTH);
             int depth = fonts.ofGlyph(glyph, FontShelf.DEPTH);
-            int bytes = depth * ((width + 7) / 8);
+            int bytes = fonts.ofGlyph(glyph, FontShelf.BYTES);
             if (bytes == 0 || !hasRoom(bytes)) {
                 return;
             }
@@ -1799,7 +1809,8 @@ public final class SheetPrinter {
         static final int DEPTH = 5;
         private static final int STEP = 6;
         static final int AT = 7;
-        private static final int COLUMNS = 8;
+        static final int BYTES = 8;
+        private static final int COLUMNS = 9;
         private static final int GLYPH_HEAD = 10;
         private static final int FURTHEST = 16384;
         private static final int LARGEST = 128;
@@ -1816,7 +1827,7 @@ public final class SheetPrinter {
         private final int[] pins = new int[2];
         private int id;
         private int code;
-        /* Choosing is dear, and characters ask for it: so it is done anew only behind a change. */
+        /* Choosing is dear, and every character asks for it: so it is done when something has changed. */
         private final int[] chosen = new int[2];
         private boolean chosenKnown;
         private final boolean[] left = new boolean[MOST_FONTS];
@@ -1835,6 +1846,7 @@ public final class SheetPrinter {
             id = 0;
             code = 0;
             chosenKnown = false;
+            settle();
         }
 
         void setId(int n) {
@@ -1847,7 +1859,7 @@ public final class SheetPrinter {
             }
         }
 
-        /** What * c F says. */
+        /** What * c F says, but for 1. */
         void manage(int n) {
             int slot = slotOf(id);
             chosenKnown = false;
@@ -1855,8 +1867,6 @@ public final class SheetPrinter {
                 fonts = 0;
                 glyphCount = 0;
                 used = 0;
-            } else if (n == 1) {
-                dropPassing();
             } else if (n == 2) {
                 removeFont(slot);
             } else if (n == 3) {
@@ -1866,8 +1876,9 @@ public final class SheetPrinter {
             }
         }
 
-        private void dropPassing() {
-            for (int slot = fonts - 1; slot >= 0; slot--) {
+        void dropPassing() {
+            chosenKnown = false;
+            for (int slot = Math.min(fonts, MOST_FONTS) - 1; slot >= 0; slot--) {
                 if (!permanent[slot]) {
                     removeFont(slot);
                 }
@@ -1897,10 +1908,6 @@ public final class SheetPrinter {
             return at >= 0 && at < glyphs.length ? glyphs[at] : 0;
         }
 
-        private int bytesOf(int glyph) {
-            return ofGlyph(glyph, DEPTH) * ((ofGlyph(glyph, WIDTH) + 7) / 8);
-        }
-
         private void removeFont(int slot) {
             if (slot < 0 || slot >= fonts) {
                 return;
@@ -1911,10 +1918,11 @@ public final class SheetPrinter {
                     removeGlyph(g);
                 }
             }
-            int behind = fonts - slot - 1;
-            System.arraycopy(ids, slot + 1, ids, slot, behind);
-            System.arraycopy(permanent, slot + 1, permanent, slot, behind);
-            System.arraycopy(attributes, (slot + 1) * ATTRIBUTES, attributes, slot * ATTRIBUTES, behind * ATTRIBUTES);
+            for (int behind = slot + 1; behind < fonts && behind < MOST_FONTS; behind++) {
+                ids[behind - 1] = ids[behind];
+                permanent[behind - 1] = permanent[behind];
+                System.arraycopy(attributes, behind * ATTRIBUTES, attributes, (behind - 1) * ATTRIBUTES, ATTRIBUTES);
+            }
             fonts--;
         }
 
@@ -1923,7 +1931,7 @@ public final class SheetPrinter {
                 return;
             }
             int at = ofGlyph(glyph, AT);
-            int bytes = bytesOf(glyph);
+            int bytes = ofGlyph(glyph, BYTES);
             System.arraycopy(dots, at + bytes, dots, at, used - at - bytes);
             used -= bytes;
             glyphCount--;
@@ -1992,7 +2000,7 @@ public final class SheetPrinter {
             }
             int old = glyphOf(id, code);
             int bytes = depth * ((width + 7) / 8);
-            int usedThen = used + bytes - (old >= 0 ? bytesOf(old) : 0);
+            int usedThen = used + bytes - (old >= 0 ? ofGlyph(old, BYTES) : 0);
             if (old < 0 && glyphCount >= MOST_GLYPHS || usedThen > MOST_BYTES) {
                 return;
             }
@@ -2006,6 +2014,7 @@ public final class SheetPrinter {
             glyphs[at + DEPTH] = depth;
             glyphs[at + STEP] = step;
             glyphs[at + AT] = used;
+            glyphs[at + BYTES] = bytes;
             glyphCount++;
             addDots(data, count, bytes, width);
         }
@@ -2058,17 +2067,22 @@ public final class SheetPrinter {
         }
 
         private int chosenSlot(int which) {
-            if (!chosenKnown) {
-                chosen[0] = choose(0);
-                chosen[1] = choose(1);
-                chosenKnown = true;
-            }
-            return which >= 0 && which < chosen.length ? chosen[which] : NONE;
+            int slot = which >= 0 && which < chosen.length ? chosen[which] : NONE;
+            return slot < ids.length ? slot : NONE;
         }
 
         private int attribute(int slot, int which) {
             int at = slot * ATTRIBUTES + which;
             return at >= 0 && at < attributes.length ? attributes[at] : 0;
+        }
+
+        /** Chooses the fonts anew, if what they were chosen by has changed. */
+        void settle() {
+            if (!chosenKnown) {
+                chosen[0] = choose(0);
+                chosen[1] = choose(1);
+                chosenKnown = true;
+            }
         }
 
         private int choose(int which) {
@@ -2257,7 +2271,7 @@ public final class SheetPrinter {
                 collected[collectedCount] = (byte) b;
             }
             collectedCount++;
-            if (b == READING_ENDS[matched]) {
+            if (matched < READING_ENDS.length && b == READING_ENDS[matched]) {
                 matched++;
             } else {
                 matched = b == READING_ENDS[0] ? 1 : 0;
@@ -2426,12 +2440,19 @@ public final class SheetPrinter {
             return scale * row;
         }
 
-        boolean isFull() {
+        private boolean isFull() {
             return height != 0 && row >= height;
         }
 
-        /** Makes the seed the next row: its dots up to the last black one. */
+        void endRow() {
+            row = isFull() ? row : row + 1;
+        }
+
+        /** Makes the seed the next row: its dots up to the last black one, 0 if no row can come. */
         int unpack(byte[] data, int count) {
+            if (isFull()) {
+                return 0;
+            }
             int bytes = Math.min(count, data.length);
             if (method != 3) {
                 Arrays.fill(seed, (byte) 0);
@@ -2550,6 +2571,7 @@ public final class SheetPrinter {
         private static final int MOST_DATA = 4096;
 
         private int mode;
+        int taken;
         int family;
         int group;
         int end;
@@ -2570,10 +2592,16 @@ public final class SheetPrinter {
         }
 
         int take(int b) {
+            taken = b;
+            if (mode == GROUPING) {
+                mode = FIELD;
+                beginField();
+                group = b >= 96 && b <= 126 ? b : 0;
+                return group == 0 ? takeField(b) : 0;
+            }
             switch (mode) {
                 case PLAIN: return takePlain(b);
                 case ESCAPED: return takeEscaped(b);
-                case GROUPING: return takeGroup(b);
                 case FIELD: return takeField(b);
                 case DATA: return takeData(b);
                 default: return takeText();
@@ -2598,17 +2626,6 @@ public final class SheetPrinter {
                 mode = GROUPING;
             }
             return b >= 48 && b <= 126 ? SHORT : 0;
-        }
-
-        private int takeGroup(int b) {
-            mode = FIELD;
-            beginField();
-            if (b >= 96 && b <= 126) {
-                group = b;
-                return 0;
-            }
-            group = 0;
-            return takeField(b);
         }
 
         private void beginField() {
@@ -2657,6 +2674,7 @@ public final class SheetPrinter {
             value = (whole * UNIT + fraction) * (sign == '-' ? -1 : 1);
             dataCount = 0;
             dataLeft = sign == '-' ? 0 : whole;
+            beginField();
             boolean text = family == '&' && group == 'p' && end == 'X';
             if (dataLeft > 0 && (text || end == 'W')) {
                 mode = text ? TEXT : DATA;
@@ -2667,7 +2685,6 @@ public final class SheetPrinter {
 
         private int finishField() {
             mode = last ? PLAIN : FIELD;
-            beginField();
             return last ? ENDED : 0;
         }
 
@@ -2704,7 +2721,7 @@ public final class SheetPrinter {
         private static final int MOST_LEVEL = 2;
         private static final int UNIT = Parser.UNIT;
 
-        /* What is left to do of a byte behind the eject that it asked for. */
+        /* What is left to do of a byte behind the eject that it may have asked for. */
         private static final int NOTHING = 0;
         private static final int CHARACTER = 1;
         private static final int RESET = 2;
@@ -2756,45 +2773,65 @@ public final class SheetPrinter {
             at[0] = ends[0];
             actCount[0] = 0;
             actNext[0] = 0;
-            ejecting = false;
         }
 
         boolean hasMore() {
             return level > 0 || at[0] < ends[0] || actNext[0] < actCount[0];
         }
 
-        /** Does one byte, or one thing that an X has said, or leaves a macro. */
-        void step() {
+        /** Takes one byte, and tells of what it is the end; or does one thing that an X has said. */
+        int next() {
             if (level < 0 || level > MOST_LEVEL) {
-                return;
+                return 0;
             }
             if (actNext[level] < actCount[level]) {
                 doAct();
             } else if (at[level] < ends[level]) {
-                takeByte();
+                return takeByte();
             } else if (level > 0) {
                 leaveMacro();
             }
+            return 0;
         }
 
-        private void takeByte() {
+        private int takeByte() {
             byte[] source = level == 0 ? tape : copies;
             int place = at[level];
             int b = place >= 0 && place < source.length ? source[place] & 255 : 0;
             if (level == 0 && macros.reading) {
                 at[level]++;
                 macros.collect(b);
-                return;
+                return 0;
             }
             int event = parser.take(b);
             if ((event & Parser.AGAIN) == 0) {
                 at[level]++;
             }
-            switch (event & Parser.KIND) {
-                case Parser.CHARACTER: doCharacter(b); break;
-                case Parser.CONTROL: doControl(b); break;
-                case Parser.SHORT: doShort(b); break;
-                case Parser.COMMAND: doCommand(parser.end, parser.number(), parser.amount()); break;
+            return event;
+        }
+
+        /** Does what the byte that was taken says, but for what must wait for an eject. */
+        void act(int event) {
+            int kind = event & Parser.KIND;
+            switch (kind == Parser.COMMAND ? parser.family << 8 | parser.group : kind) {
+                case Parser.CHARACTER: doCharacter(parser.taken); break;
+                case Parser.CONTROL: doControl(parser.taken); break;
+                case Parser.SHORT: doShort(parser.taken); break;
+                case '&' << 8 | 'l': doLayout(parser.end, parser.number(), parser.amount()); break;
+                case '&' << 8 | 'k': doText(parser.end, parser.number(), parser.amount()); break;
+                case '&' << 8 | 'a': doPlace(parser.end, parser.number()); break;
+                case '&' << 8 | 's': doWrap(parser.end, parser.number()); break;
+                case '&' << 8 | 'f': doStackAndMacros(parser.end, parser.number()); break;
+                case '*' << 8 | 'p': doDotPlace(parser.end); break;
+                case '*' << 8 | 'c': doFontsAndRules(parser.end, parser.number(), parser.amount()); break;
+                case '*' << 8 | 'v': doInk(parser.end, parser.number()); break;
+                case '*' << 8 | 't': doResolution(parser.end, parser.number()); break;
+                case '*' << 8 | 'r': doRaster(parser.end, parser.number()); break;
+                case '*' << 8 | 'b': doRow(parser.end, parser.number()); break;
+                case '(' << 8 | 's': doWish(0, parser.end, parser.number(), parser.amount()); break;
+                case ')' << 8 | 's': doWish(1, parser.end, parser.number(), parser.amount()); break;
+                case '(' << 8: doSet(0, parser.end, parser.number()); break;
+                case ')' << 8: doSet(1, parser.end, parser.number()); break;
                 default: break;
             }
             if ((event & Parser.ENDED) != 0) {
@@ -2854,54 +2891,43 @@ public final class SheetPrinter {
             level--;
         }
 
-        private void ejectThen(int what, int number, int step) {
-            ejecting = true;
+        private void waitToDo(int what, int number) {
             then = what;
             thenNumber = number;
-            thenStep = step;
         }
 
-        private void ejectIfDueThen(int what, int number) {
-            if (sheet.due) {
-                ejectThen(what, number, 0);
-            } else {
-                doThen(what, number);
+        /** Goes on with a byte that has waited: if the job has failed, but for its marks. */
+        void finish(boolean failed) {
+            int what = then;
+            then = NOTHING;
+            if (ejecting) {
+                ejecting = false;
+                page.goHome();
             }
-        }
-
-        /** Goes on with the byte that ejected: if the job has failed, but for its marks. */
-        void ejected(boolean failed) {
-            ejecting = false;
-            page.goHome();
-            if (then != CHARACTER) {
-                doThen(then, thenNumber);
-            } else if (failed) {
-                page.setX(page.x + thenStep);
-            } else {
-                placeCharacter(thenNumber, thenStep);
-            }
-        }
-
-        private void doThen(int what, int number) {
             switch (what) {
+                case CHARACTER:
+                    if (failed) {
+                        page.setX(page.x + thenStep);
+                    } else {
+                        placeCharacter(thenNumber, thenStep);
+                    }
+                    break;
                 case RESET: page.reset(); break;
-                case SIZE: page.setSize(number); break;
-                case ORIENTATION: page.setOrientation(number); break;
+                case SIZE: page.setSize(thenNumber); break;
+                case ORIENTATION: page.setOrientation(thenNumber); break;
                 default: break;
             }
         }
 
         private void doCharacter(int b) {
-            int step = fonts.stepOf(page.font, b, page.stepAcross);
-            if (page.fits(step)) {
-                placeCharacter(b, step);
-            } else if (page.wrap) {
+            thenStep = fonts.stepOf(page.font, b, page.stepAcross);
+            boolean fits = page.fits(thenStep);
+            if (!fits && page.wrap) {
                 page.carriageReturn();
-                if (page.lineFeed(page.stepDown)) {
-                    placeCharacter(b, step);
-                } else {
-                    ejectThen(CHARACTER, b, step);
-                }
+                doLineFeed(page.stepDown);
+            }
+            if (fits || page.wrap) {
+                waitToDo(CHARACTER, b);
             }
         }
 
@@ -2924,7 +2950,7 @@ public final class SheetPrinter {
                 case 8: page.backspace(); break;
                 case 9: page.tab(); break;
                 case 10: doLineFeed(page.stepDown); break;
-                case 12: ejectThen(NOTHING, 0, 0); break;
+                case 12: ejecting = true; break;
                 case 13:
                     if ((page.lineEnd & 1) == 1) {
                         doLineFeed(page.stepDown);
@@ -2937,37 +2963,17 @@ public final class SheetPrinter {
         }
 
         private void doLineFeed(int step) {
-            if (!page.lineFeed(step)) {
-                ejectThen(NOTHING, 0, 0);
-            }
+            ejecting = !page.lineFeed(step);
         }
 
         private void doShort(int b) {
             switch (b) {
-                case 'E': ejectIfDueThen(RESET, 0); break;
+                case 'E':
+                    ejecting = sheet.due;
+                    waitToDo(RESET, 0);
+                    break;
                 case '9': page.clearMargins(); break;
                 case '=': doLineFeed(page.stepDown / 2); break;
-                default: break;
-            }
-        }
-
-        private void doCommand(int end, int n, long v) {
-            switch (parser.family << 8 | parser.group) {
-                case '&' << 8 | 'l': doLayout(end, n, v); break;
-                case '&' << 8 | 'k': doText(end, n, v); break;
-                case '&' << 8 | 'a': doPlace(end, n); break;
-                case '&' << 8 | 's': doWrap(end, n); break;
-                case '&' << 8 | 'f': doStackAndMacros(end, n); break;
-                case '*' << 8 | 'p': doDotPlace(end); break;
-                case '*' << 8 | 'c': doFontsAndRules(end, n, v); break;
-                case '*' << 8 | 'v': doInk(end, n); break;
-                case '*' << 8 | 't':
-                case '*' << 8 | 'r': doRaster(end, n); break;
-                case '*' << 8 | 'b': doRow(end, n); break;
-                case '(' << 8 | 's': doWish(0, end, n, v); break;
-                case ')' << 8 | 's': doWish(1, end, n, v); break;
-                case '(' << 8: doSet(0, end, n); break;
-                case ')' << 8: doSet(1, end, n); break;
                 default: break;
             }
         }
@@ -2976,12 +2982,14 @@ public final class SheetPrinter {
             switch (end) {
                 case 'A':
                     if (Page.isSize(n)) {
-                        ejectIfDueThen(SIZE, n);
+                        ejecting = sheet.due;
+                        waitToDo(SIZE, n);
                     }
                     break;
                 case 'O':
                     if (n <= 3) {
-                        ejectIfDueThen(ORIENTATION, n);
+                        ejecting = sheet.due;
+                        waitToDo(ORIENTATION, n);
                     }
                     break;
                 case 'X': page.setCopies(n); break;
@@ -3047,7 +3055,13 @@ public final class SheetPrinter {
             switch (end) {
                 case 'D': fonts.setId(n); break;
                 case 'E': fonts.setCode(n); break;
-                case 'F': fonts.manage(n); break;
+                case 'F':
+                    if (n == 1) {
+                        fonts.dropPassing();
+                    } else {
+                        fonts.manage(n);
+                    }
+                    break;
                 case 'A': sheet.setRuleWidth(24 * n); break;
                 case 'H': sheet.setRuleWidth(10 * v / UNIT); break;
                 case 'B': sheet.setRuleHeight(24 * n); break;
@@ -3067,13 +3081,13 @@ public final class SheetPrinter {
             }
         }
 
-        private void doRaster(int end, int n) {
-            if (parser.group == 't') {
-                if (end == 'R') {
-                    raster.setResolution(n);
-                }
-                return;
+        private void doResolution(int end, int n) {
+            if (end == 'R') {
+                raster.setResolution(n);
             }
+        }
+
+        private void doRaster(int end, int n) {
             switch (end) {
                 case 'S': raster.setNextWidth(n); break;
                 case 'T': raster.setNextHeight(n); break;
@@ -3094,24 +3108,18 @@ public final class SheetPrinter {
         }
 
         private void doRow(int end, int n) {
-            switch (end) {
-                case 'M': raster.setMethod(n); break;
-                case 'Y': raster.skipRows(n); break;
-                case 'W': layRow(); break;
-                default: break;
+            if (end == 'M') {
+                raster.setMethod(n);
+            } else if (end == 'Y') {
+                raster.skipRows(n);
+            } else if (end == 'W') {
+                raster.openAt(0, page.y);
+                int blackDots = raster.unpack(parser.data, parser.dataCount);
+                if (blackDots > 0) {
+                    sheet.layRow(raster, blackDots);
+                }
+                raster.endRow();
             }
-        }
-
-        private void layRow() {
-            raster.openAt(0, page.y);
-            if (raster.isFull()) {
-                return;
-            }
-            int blackDots = raster.unpack(parser.data, parser.dataCount);
-            if (blackDots > 0) {
-                sheet.layRow(raster, blackDots);
-            }
-            raster.row++;
         }
 
         private void doWish(int which, int end, int n, long v) {

@@ -974,11 +974,14 @@ final class PlainPrinter {
                 sheet[j] = new BitSet();
             }
         }
-        for (int q = 0; q < high; q++) {
-            for (int p = 0; p < wide; p++) {
+        int sheetWide = sheetW();
+        int sheetHigh = sheetH();
+        // dots of a large mark that are further off than any sheet is long lie beside it
+        for (int q = 0; q < Math.min(high, 5200); q++) {
+            for (int p = 0; p < Math.min(wide, 5200); p++) {
                 int x = place[0] + (orientation == 0 ? p : orientation == 1 ? q : orientation == 2 ? -p : -q);
                 int y = place[1] + (orientation == 0 ? q : orientation == 1 ? -p : orientation == 2 ? -q : p);
-                if (x < 0 || x >= sheetW() || y < 0 || y >= sheetH()) {
+                if (x < 0 || x >= sheetWide || y < 0 || y >= sheetHigh) {
                     continue;
                 }
                 if (!source.black(p, q)) {
@@ -1191,13 +1194,9 @@ final class PlainPrinter {
 
     /** The first change right of a to the colour, or the width. */
     static int change(BitSet line, int a, boolean black, int width) {
-        for (int x = a + 1; x < width; x++) {
-            boolean before = x > 0 && line.get(x - 1);
-            if (line.get(x) == black && before != black) {
-                return x;
-            }
-        }
-        return width;
+        boolean before = a >= 0 && line.get(a);
+        int other = before == black ? find(line, a, !black, width) : a;
+        return other >= width ? width : find(line, other, black, width);
     }
 
     static void codeLine(StringBuilder bits, BitSet above, BitSet line, int width) {
