@@ -5,7 +5,7 @@ public final class AgainstPlainTest {
 
     public static void main(String[] args) {
         long first = args.length > 0 ? Long.parseLong(args[0]) : 1;
-        long runs = args.length > 1 ? Long.parseLong(args[1]) : 40;
+        long runs = args.length > 1 ? Long.parseLong(args[1]) : 250;
         for (seed = first; seed < first + runs && wrong < 20; seed++) {
             run();
         }

@@ -79,12 +79,12 @@ public final class MacrosTest {
         fresh().stream("\33&f2X\33&f3X").at(0, 4500).status(19, 0);
         // the bytes are those it had
         fresh().stream(macro(1, "A\33&f8XB") + "\33&f2X").at(1440, 4500).status(16, 0);
-        fresh().stream(macro(1, "A\33&f6XB" + "\33&f2XC") + macro(2, "DD") + "\33&f1y2X").at(2160, 4500).status(16, 0);
+        fresh().stream(macro(1, "A\33&f6XB\33&f2XC") + macro(2, "DD") + "\33&f1y2X").at(2160, 4500).status(16, 0);
     }
 
     private static void calling() {
         String all = "\33&a5l9M\33&k5h3G\33&l6c2e3f1L\33&s0C\16\33&f0S\33*p9x9Y";
-        Tester t = fresh().stream("\33&a2c2R\33&f0S\33&a1c" + macro(1, all).substring(1 - 1));
+        Tester t = fresh().stream("\33&a2c2R\33&f0S\33&a1c" + macro(1, all));
         t.stream("\33&a3c3R" + "\33&f3X").at(2160, 8100).status(11, 0);
         t.stream("\33&f1S").at(1440, 6900).stream("\33&f1S\t").at(5760, 6900).stream("\r\n").at(0, 8100).stream("\33&a0R").at(0, 4500);
         t.stream("\33&a79CAA").at(57600, 4500);
@@ -93,7 +93,7 @@ public final class MacrosTest {
         t.stream(Tester.plainFont(1, 0).substring(5) + "\33*c0P\f").status(14, 5).status(2, 2);
         // places are brought to the page
         fresh().stream("\33&l6A\33*p9999x9999Y\33&a100M" + macro(1, "\33&l1A") + "\33&f3X").at(48600, 75600).stream("\33&a0CA").at(720, 75600)
-                .stream("\33&a67CA").at(48600 - 360 + 0, 75600 - 0);
+                .stream("\33&a67CA").at(48240, 75600);
         fresh().stream("\33&l6A\33&a100m80L" + macro(1, "\33&l1A") + "\33&f3X").at(48600, 4500).stream("\33&a0C\r").at(48600, 4500);
         fresh().stream(macro(1, "AB") + "\33&f3X").at(0, 4500).stream("\33E").status(2, 1);
         fresh().stream(macro(1, "AB\33&a9") + "\33&f3XC").at(6480, 4500);
@@ -143,7 +143,7 @@ public final class MacrosTest {
         fresh().stream(three + "\33&f2y2X").at(1440, 4500).status(19, 9);
         fresh().stream(three + "\33&f1y2X\33&f1y").at(1440, 4500);
         // none is read within a macro; but an n 0 whose sequence ends behind it is
-        fresh().stream(macro(1, "\33&f2y0XA" + "\33&f3y0x4X") + "\33&f2X").status(18, 0).at(720, 4500);
+        fresh().stream(macro(1, "\33&f2y0XA\33&f3y0x4X") + "\33&f2X").status(18, 0).at(720, 4500);
         fresh().stream(macro(1, "\33&f2y0x") + "\33&f2XX").status(18, 1);
         fresh().stream(macro(1, "A") + macro(2, "\33&f1y0X\33&f2XB") + "\33&f2y2X").status(16, 2).at(1440, 4500);
         // what macros do while one is read is not of it

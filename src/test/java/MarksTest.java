@@ -291,8 +291,7 @@ public final class MarksTest {
         t.dots(0, 38, 18, "....").dots(0, 39, 16, "..####").dots(0, 40, 16, "..####").dots(0, 41, 18, "....").dots(0, 55, 18, "####");
         // an ink that is none leaves the ink as it is
         fresh().stream("\33*c7G\33*v3t4tT\33*c101G\33*v2T\33*c0G\33*v2t3T\33*c9a9b5P").status(4, 1);
-        String[] hatches = {"h1", "h2", "h3", "h4", "h5", "h6"};
-        for (int h = 1; h <= hatches.length; h++) {
+        for (int h = 1; h <= 6; h++) {
             t = fresh().stream("\33*p0x0Y\33*c400a400b" + h + "g3P");
             t.conclude();
             for (int y = 48; y < 64; y++) {
@@ -318,21 +317,21 @@ public final class MarksTest {
         String font = Tester.plainFont(1, 1) + Tester.glyph(1, 65, 0, 0, 4, 1, 0, 0xA0);
         String[][] ways = {
             {"", "########"}, {"\33*v1N", "###.#.##"}, {"\33*v1T", "########"}, {"\33*v1o1T", "##.#.###"}, {"\33*v1n1o1T", "##....##"},
-            {"\33*v1n1o1t2n0o2O", "##########".substring(0, 2) + "#.#." + "##"}, {"\33*v1n0n1oO", "########"}};
+            {"\33*v1n1o1t2n0o2O", "###.#.##"}, {"\33*v1n0n1oO", "########"}};
         for (String[] w : ways) {
             Tester t = fresh().stream(font + field + w[0] + "A");
             t.conclude();
             t.dots(0, 39, 18, w[1]).dots(0, 38, 18, "########");
         }
         // rows likewise: up to their last black dot
-        String[][] rows = {{"", "########"}, {"\33*v1N", "###..###"}, {"\33*v1n1o1T", "##...###"}};
+        String[][] rows = {{"", "########", "########"}, {"\33*v1N", "########", "###..###"}, {"\33*v1n1o1T", "##.#####", "##....##"}};
         for (String[] w : rows) {
-            Tester t = fresh().stream(field + w[0] + "\33*r1A\33*b2W\220\0".replace("\220", "\200") + "\33*rC");
+            Tester t = fresh().stream(field + w[0] + "\33*r1A\33*b2W\200\0");
             t.conclude();
-            t.dots(0, 39, 18, w[0].equals("\33*v1n1o1T") ? "##.#####" : "########");
+            t.dots(0, 39, 18, w[1]);
             t = fresh().stream(field + w[0] + "\33*r1A\33*b1W\220");
             t.conclude();
-            t.dots(0, 39, 18, w[0].isEmpty() ? "########" : w[0].equals("\33*v1N") ? "###..###" : "##....##");
+            t.dots(0, 39, 18, w[2]);
         }
         // rules: black ones and shades are opaque as the ink is
         Tester t = fresh().stream(field + "\33*c8a8b1g2P");
@@ -371,7 +370,7 @@ public final class MarksTest {
 
     private static void rasters() {
         fresh().status(20, 0).stream("\33*rA").status(20, 1).status(21, 0).stream("\33*b1W\1").status(21, 1).stream("\33*rB").status(20, 0).status(21, -1);
-        fresh().stream("\33*r2A").status(20, 0).stream("\33*r1a\33*b5y1A").status(21, 0 + 5);
+        fresh().stream("\33*r2A").status(20, 0).stream("\33*r1a\33*b5y1A").status(21, 5);
         fresh().stream("\33*b0W").status(20, 1).status(21, 1).status(4, 0);
         fresh().stream("\33*b5Y").status(20, 0).stream("\33*rC").at(0, 4500);
         // heights
@@ -392,7 +391,7 @@ public final class MarksTest {
         new Tester(300, 1).stream("\33*t300R\33*rA\33*b1W\1\33*rC").at(0, 188 * 24);
         // resolutions, not in an open raster
         new Tester(300, 1).stream("\33*t200r150r300r299R\33*rA\33*t75R\33*b1W\1\33*rC").at(0, 188 * 24).stream("\33*b1W\1\33*rC").at(0, 189 * 24);
-        new Tester(150, 1).stream("\33*t100R\33*b1W\1\33*rC").at(0, 94 * 48 - 48 + 48);
+        new Tester(150, 1).stream("\33*t100R\33*b1W\1\33*rC").at(0, 94 * 48);
         new Tester(150, 1).stream("\33*t300R\33*b1W\1\33*rC").at(0, 94 * 48);
         // the method is 0 behind an end, whatever it was
         fresh().stream("\33*b1m0W\33*rC\33*b2W\1\200").status(5, 2);
@@ -422,7 +421,7 @@ public final class MarksTest {
         row("\33*b3W\1\2\3", "\1\2\3");
         row("\33*b1m4W\2\201\0\1", "\201\201\201\1");
         row("\33*b1m5W\2\201\0\1\3", "\201\201\201\1");
-        row("\33*b2m5W\1\201\1\376\1", "\201\1\1\1\1".substring(0, 2) + "\1\1\1");
+        row("\33*b2m5W\1\201\1\376\1", "\201\1\1\1\1");
         row("\33*b2m6W\200\200\0\1\377\2", "\1\2\2");
         row("\33*b2m3W\5\201\1", "\201\1");
         row("\33*b2m3W\0\201\201", "\201");
@@ -435,11 +434,11 @@ public final class MarksTest {
         row("\33*b3w\1\2\3" + "3m1y2W\1\7", "\0\7");
         row("\33*b3m3W\37\1\5", "\0".repeat(32) + "\5");
         row("\33*b3m4W\37\377\1\5", "\0".repeat(31 + 256) + "\5");
-        row("\33*b3m3W\37\377\0".substring(0, 8) + "\37\377\0", "");
+        row("\33*b3m3W\37\377\0", "");
         row("\33*b3m4W\37\377\0\5", "\0".repeat(31 + 255) + "\5");
         row("\33*b3m2W\37\377", "");
-        row("\33*b3m6W\37\377\377\141\0\5", "\0".repeat(31 + 510 + 97) + "\0\5".substring(0, 2));
-        row("\33*b3m7W\37\377\377\142\0\5\6", "\0".repeat(640 - 1) + "\5");
+        row("\33*b3m6W\77\377\377\141\0\5", "\0".repeat(31 + 510 + 97 + 1) + "\5");
+        row("\33*b3m6W\77\377\377\142\5\6", "\0".repeat(640 - 1) + "\5");
         row("\33*r16S\33*b4W\1\2\3\4", "\1\2");
         row("\33*r12S\33*b2w\1\37" + "3m2W\0\1", "\1\20");
     }
@@ -448,6 +447,9 @@ public final class MarksTest {
     private static void row(String stream, String want) {
         Tester t = new Tester(75, 64).stream("\33&l6A\33*p0x0Y" + stream);
         int row = t.x.status(21);
+        if (row == 1) {
+            t.status(5, want.length());
+        }
         t.conclude();
         for (int i = 0; i < want.length(); i++) {
             StringBuilder bits = new StringBuilder(Integer.toBinaryString(256 + want.charAt(i)).substring(1));
