@@ -10,7 +10,6 @@ public final class SheetPrinter {
 
     private static final int TAPE_ROOM = 65536;
     private static final int TAPE_STEP = 20;
-    private static final int MOST_BAND = 1024;
     private static final int MOST_PICTURES = 300;
     private static final int WIDEST_PICTURE = 10000;
     /* Far above what the tape and the 65536 bytes that macros may come to can need. */
@@ -48,7 +47,7 @@ public final class SheetPrinter {
         this.dpi = dpi >= 300 ? 300 : dpi >= 150 ? 150 : 75;
         tape = new byte[TAPE_ROOM];
         page = new Page(this.dpi);
-        sheet = new Sheet(page, Math.max(1, Math.min(MOST_BAND, band)));
+        sheet = new Sheet(page, band);
         fonts = new FontShelf();
         macros = new Macros();
         raster = new Raster(this.dpi);
@@ -980,10 +979,7 @@ public final class SheetPrinter {
             stripsBefore = 0;
             next = number(4, 4);
             long first = next;
-            for (int p = 0; p == 0 || hasPage(); p++) {
-                if (p >= MOST_PAGES) {
-                    return 2;
-                }
+            for (int p = 0; p < MOST_PAGES; p++) {
                 int found = readPage();
                 if (found == 0) {
                     found = checkPage();
@@ -991,9 +987,12 @@ public final class SheetPrinter {
                 if (found != 0) {
                     return found;
                 }
+                if (!hasPage()) {
+                    next = first;
+                    return 0;
+                }
             }
-            next = first;
-            return 0;
+            return 2;
         }
 
         boolean hasPage() {
@@ -1464,6 +1463,7 @@ public final class SheetPrinter {
 
     /** The marks of a sheet, the ink they are laid with, and the band in which they are painted. */
     private static final class Sheet {
+        private static final int MOST_BAND = 1024;
         private static final int MOST_MARKS = 4096;
         private static final int MOST_BYTES = 65536;
 
@@ -1507,9 +1507,9 @@ public final class SheetPrinter {
         private int ruleHeight;
         private int pattern;
 
-        Sheet(Page page, int bandLines) {
+        Sheet(Page page, int lines) {
             this.page = page;
-            this.bandLines = bandLines;
+            bandLines = Math.max(1, Math.min(MOST_BAND, lines));
             band = new long[bandLines * wordsOf(Page.WIDEST * page.dpi / Page.INCH)];
         }
 
@@ -1909,7 +1909,7 @@ public final class SheetPrinter {
         }
 
         private void removeFont(int slot) {
-            if (slot < 0 || slot >= fonts) {
+            if (slot < 0 || slot >= fonts || slot >= ids.length) {
                 return;
             }
             /* Downwards, for a glyph that goes is followed in its place by the last one. */
@@ -1950,11 +1950,13 @@ public final class SheetPrinter {
                 return;
             }
             removeFont(slot);
-            ids[fonts] = id;
-            permanent[fonts] = false;
-            System.arraycopy(coming, 0, attributes, fonts * ATTRIBUTES, ATTRIBUTES);
-            fonts++;
             chosenKnown = false;
+            if (fonts >= 0 && fonts < MOST_FONTS) {
+                ids[fonts] = id;
+                permanent[fonts] = false;
+                System.arraycopy(coming, 0, attributes, fonts * ATTRIBUTES, ATTRIBUTES);
+                fonts++;
+            }
         }
 
         private boolean readAttributes(byte[] data) {
@@ -2016,17 +2018,13 @@ public final class SheetPrinter {
             glyphs[at + AT] = used;
             glyphs[at + BYTES] = bytes;
             glyphCount++;
-            addDots(data, count, bytes, width);
+            addDots(data, count, bytes);
         }
 
-        /* Bits beyond the width must be white, for the dots are painted by bytes. */
-        private void addDots(byte[] data, int count, int bytes, int width) {
-            int lineBytes = (width + 7) / 8;
-            int lastMask = 255 << (8 - (width & 7) & 7);
-            for (int i = 0; i < bytes && lineBytes > 0 && used < dots.length; i++) {
-                int from = GLYPH_HEAD + i;
-                int dot = from < count && from < data.length ? data[from] : 0;
-                dots[used] = (byte) (i % lineBytes == lineBytes - 1 ? dot & lastMask : dot);
+        /* Bits beyond the width may stay: marks are painted by their width. */
+        private void addDots(byte[] data, int count, int bytes) {
+            for (int i = GLYPH_HEAD; i < GLYPH_HEAD + bytes && used < dots.length; i++) {
+                dots[used] = i < count && i < data.length ? data[i] : 0;
                 used++;
             }
         }
@@ -2113,17 +2111,17 @@ public final class SheetPrinter {
         /* If none has the number all stay, and the answer is false. */
         private boolean keepThose(int attribute, int number) {
             boolean any = false;
-            for (int slot = 0; slot < fonts; slot++) {
+            for (int slot = 0; slot < fonts && slot < left.length; slot++) {
                 any |= left[slot] && attribute(slot, attribute) == number;
             }
-            for (int slot = 0; slot < fonts && any; slot++) {
+            for (int slot = 0; slot < fonts && slot < left.length && any; slot++) {
                 left[slot] &= attribute(slot, attribute) == number;
             }
             return any;
         }
 
         private boolean allLeftEven() {
-            for (int slot = 0; slot < fonts; slot++) {
+            for (int slot = 0; slot < fonts && slot < left.length; slot++) {
                 if (left[slot] && attribute(slot, SPACING) != 0) {
                     return false;
                 }
@@ -2148,21 +2146,21 @@ public final class SheetPrinter {
         /* Weights may be below 0 and NONE is one of them: so they are looked for one by one. */
         private int bestWeight(int wish) {
             int step = wish >= 0 ? 1 : -1;
-            for (int weight = wish + step; canBe(WEIGHT, weight); weight += step) {
-                if (anyLeft(WEIGHT, weight)) {
-                    return weight;
+            for (int far = 1; far <= MOST[WEIGHT] - LEAST[WEIGHT]; far++) {
+                if (anyLeft(WEIGHT, wish + step * far)) {
+                    return wish + step * far;
                 }
             }
-            for (int weight = wish - step; canBe(WEIGHT, weight); weight -= step) {
-                if (anyLeft(WEIGHT, weight)) {
-                    return weight;
+            for (int far = 1; far <= MOST[WEIGHT] - LEAST[WEIGHT]; far++) {
+                if (anyLeft(WEIGHT, wish - step * far)) {
+                    return wish - step * far;
                 }
             }
             return wish;
         }
 
         private boolean anyLeft(int attribute, int number) {
-            for (int slot = 0; slot < fonts; slot++) {
+            for (int slot = 0; slot < fonts && slot < left.length; slot++) {
                 if (left[slot] && attribute(slot, attribute) == number) {
                     return true;
                 }
@@ -2172,7 +2170,7 @@ public final class SheetPrinter {
 
         private int least(int attribute, int from) {
             int found = NONE;
-            for (int slot = 0; slot < fonts; slot++) {
+            for (int slot = 0; slot < fonts && slot < left.length; slot++) {
                 int number = attribute(slot, attribute);
                 if (left[slot] && number >= from && (found == NONE || number < found)) {
                     found = number;
@@ -2183,7 +2181,7 @@ public final class SheetPrinter {
 
         private int greatest(int attribute, int to) {
             int found = NONE;
-            for (int slot = 0; slot < fonts; slot++) {
+            for (int slot = 0; slot < fonts && slot < left.length; slot++) {
                 int number = attribute(slot, attribute);
                 if (left[slot] && number <= to && number > found) {
                     found = number;
@@ -2195,7 +2193,7 @@ public final class SheetPrinter {
         private int lastLeft() {
             int last = NONE;
             int lastPassing = NONE;
-            for (int slot = 0; slot < fonts; slot++) {
+            for (int slot = 0; slot < fonts && slot < left.length; slot++) {
                 if (left[slot]) {
                     last = slot;
                     lastPassing = permanent[slot] ? lastPassing : slot;

@@ -1,3 +1,5 @@
+import java.util.Arrays;
+
 /** Holds SheetPrinter, in all it tells, against the plain printer on streams and files made by chance. */
 public final class AgainstPlainTest {
     private static int wrong = 0;
@@ -33,7 +35,14 @@ public final class AgainstPlainTest {
             int parts = 1 + m.r.nextInt(4);
             for (int part = 0; part < parts; part++) {
                 boolean pictures = m.r.nextInt(4) == 0;
-                byte[] bytes = pictures ? m.pictures() : m.stream(m.r.nextInt(60));
+                byte[] bytes = pictures ? m.pictures() : m.stream(m.r.nextInt(m.r.nextInt(10) == 0 ? 400 : 60));
+                if (!pictures && m.r.nextInt(3) == 0) {
+                    // a stream goes on in the next one, wherever it was
+                    int cut = m.r.nextInt(bytes.length + 1);
+                    submit(x, y, 0, Arrays.copyOf(bytes, cut));
+                    statuses(x, y);
+                    bytes = Arrays.copyOfRange(bytes, cut, bytes.length);
+                }
                 submit(x, y, pictures ? 1 : 0, bytes);
                 statuses(x, y);
             }
