@@ -28,7 +28,7 @@ public final class AgainstPlainTest {
         Maker m = new Maker(seed);
         int dpi = m.r.nextInt(12) == 0 ? 300 : m.r.nextInt(6) == 0 ? 150 : 75;
         int band = m.r.nextInt(3) == 0 ? m.r.nextInt(5) - 1 : m.r.nextInt(1200);
-        SheetPrinter x = new SheetPrinter(dpi, band);
+        FreshPrinter x = new FreshPrinter(dpi, band);
         PlainPrinter y = new PlainPrinter(dpi, band);
         int jobs = 1 + m.r.nextInt(3);
         for (int job = 0; job < jobs; job++) {
@@ -52,7 +52,7 @@ public final class AgainstPlainTest {
         }
     }
 
-    private static void submit(SheetPrinter x, PlainPrinter y, int kind, byte[] bytes) {
+    private static void submit(FreshPrinter x, PlainPrinter y, int kind, byte[] bytes) {
         for (int at = 0; at < bytes.length; at += 20) {
             int[] n = new int[5];
             for (int i = 0; i < 20; i++) {
@@ -76,13 +76,13 @@ public final class AgainstPlainTest {
         due("submit(" + kind + ", " + last + ")", got, want);
     }
 
-    private static void statuses(SheetPrinter x, PlainPrinter y) {
+    private static void statuses(FreshPrinter x, PlainPrinter y) {
         for (int which = -1; which <= 26; which++) {
             due("status(" + which + ")", x.status(which), y.status(which));
         }
     }
 
-    private static void file(SheetPrinter x, PlainPrinter y, Maker m) {
+    private static void file(FreshPrinter x, PlainPrinter y, Maker m) {
         int bytes = y.status(22);
         for (int k = -1; k <= bytes / 8 + 1; k++) {
             if (x.bytesAt(k) != y.bytesAt(k)) {

@@ -36,7 +36,7 @@ public final class FacePromisesTest {
         String stream = Tester.plainFont(1, 1) + Tester.glyph(1, 'A', -2, 5, 9, 4, 900, 255, 128, 15, 0, 240, 128, 1, 1)
                 + "\33&l1OAA\33*p50x90YA\33*c100a60b30g2P\33*t100R\33*r1A\33*b3W\252\17\1\33*b3m2W\0\377\33*rC\33*c4g3P\f"
                 + "\33&l26a2OAAAA\33*c5000a5000b3P";
-        SheetPrinter one = null;
+        FreshPrinter one = null;
         for (int band : new int[] {1, Integer.MIN_VALUE, -1, 0, 2, 3, 7, 16, 824, 825, 826, 1023, 1024, 1025, 5000, Integer.MAX_VALUE}) {
             Tester t = new Tester(75, band);
             t.stream(stream);

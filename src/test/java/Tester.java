@@ -9,12 +9,22 @@ final class Tester {
 
     private static int wrong = 0;
     private static int asked = 0;
-    final SheetPrinter x;
+    final FreshPrinter x;
+    /** The plain printer, null without one. */
     private final PlainPrinter y;
 
     Tester(int dpi, int band) {
-        x = new SheetPrinter(dpi, band);
-        y = new PlainPrinter(dpi, band);
+        this(dpi, band, true);
+    }
+
+    private Tester(int dpi, int band, boolean beside) {
+        x = new FreshPrinter(dpi, band);
+        y = beside ? new PlainPrinter(dpi, band) : null;
+    }
+
+    /** A printer without a plain one beside it. */
+    static Tester alone(int dpi, int band) {
+        return new Tester(dpi, band, false);
     }
 
     static void due(String what, long got, long want) {
@@ -75,7 +85,9 @@ final class Tester {
 
     boolean tape(int a, int b, int c, int d, int e) {
         boolean got = x.tape(a, b, c, d, e);
-        due("tape", got ? 1 : 0, y.tape(a, b, c, d, e) ? 1 : 0);
+        if (y != null) {
+            due("tape", got ? 1 : 0, y.tape(a, b, c, d, e) ? 1 : 0);
+        }
         return got;
     }
 
@@ -87,6 +99,9 @@ final class Tester {
             got = ARGUMENT;
         } catch (IllegalStateException e) {
             got = STATE;
+        }
+        if (y == null) {
+            return got;
         }
         long want;
         try {
@@ -114,6 +129,9 @@ final class Tester {
 
     int conclude() {
         int got = x.conclude();
+        if (y == null) {
+            return got;
+        }
         due("conclude()", got, y.conclude());
         compare();
         for (int k = -1; k <= y.status(22) / 8; k++) {
