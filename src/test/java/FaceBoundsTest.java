@@ -26,6 +26,7 @@ public final class FaceBoundsTest {
         zeroWhereThereAreNoBytes();
         indexIfThereIsNoneSuch();
         zeroWhereThereAreNoDots();
+        noneOfAFileBefore();
         noneForAnyOtherWhich();
         noneWithoutOne();
         asking();
@@ -399,6 +400,27 @@ public final class FaceBoundsTest {
             }
             t.conclude();
             Tester.due("printed of a file without pages", t.x.printed(0, 0, 0), 0);
+        }
+    }
+
+    /** Of a file with fewer pages and bytes nothing is seen of one that was there before */
+    private static void noneOfAFileBefore() {
+        Tester t = fresh();
+        for (int round = 0; round < 3; round++) {
+            int pages = 3 - round;
+            // each job twice, for the printer may have room for two files
+            for (int twice = 0; twice < 2; twice++) {
+                t.stream("\33*p0x0Y\33*c9999a9999b0P\f".repeat(pages)).conclude();
+                int bytes = t.x.status(22);
+                for (int p = 0; p <= 3; p++) {
+                    Tester.due("printed(" + p + ", 99, 1)", t.x.printed(p, 99, 1), p < pages ? -1 : 0);
+                    Tester.due("sheetOf(" + p + ", 0)", t.sheetOf(p, 0), p < pages ? 637 : Tester.INDEX);
+                }
+                Tester.due("the last bytes", bytes % 8 == 0 ? 0 : t.x.bytesAt(bytes / 8) << 8 * (bytes % 8), 0);
+                for (int k = (bytes + 7) / 8; k < (bytes + 7) / 8 + 120; k++) {
+                    Tester.due("bytesAt(" + k + ")", t.x.bytesAt(k), 0);
+                }
+            }
         }
     }
 

@@ -139,6 +139,13 @@ public final class PictureBoundsTest {
 
     /** "as long as n is 2560 or more the BLOCK 2560 ..; then, if it is 64 or more, the BLOCK of n less n % 64; then the REST" */
     private static void runsAtTheirBlocks() {
+        // each of the words: the RESTS, and the BLOCKS with a REST
+        for (int n = 1; n < 64; n++) {
+            coded("001" + PlainPrinter.run(n, 0) + PlainPrinter.run(n, 1) + "1", ".".repeat(n) + "#".repeat(n) + "....");
+        }
+        for (int n = 64; n <= 2624; n += 64) {
+            coded("001" + PlainPrinter.run(n, 0) + PlainPrinter.run(n + 9, 1) + "1", ".".repeat(n) + "#".repeat(n + 9) + "....");
+        }
         for (int n : new int[] {4, 63, 64, 65, 127, 128, 1727, 1728, 1729, 1791, 1792, 1793, 2495, 2496, 2559, 2560, 2561, 2623, 2624, 4351, 4352, 4998}) {
             coded("001" + PlainPrinter.run(n, 0) + PlainPrinter.run(n, 1) + "1", ".".repeat(n) + "#".repeat(n) + "....");
             coded("001" + PlainPrinter.run(0, 0) + PlainPrinter.run(n, 1) + "1", "#".repeat(n) + "....");
@@ -765,6 +772,15 @@ public final class PictureBoundsTest {
         t = fresh();
         t.file(most);
         t.stream("\33&l9X\f").status(3, 20).status(2, 29);
+        // copies of a strip of 102 bytes: the second one ends at 60000, or two bytes behind it
+        for (int off = 0; off <= 2; off += 2) {
+            t = fresh();
+            t.file(most);
+            Tester.due("fault", t.file(heights((1292 + off) * 8 - 24)), 0);
+            t.stream("\33&l1a2X\f").status(3, off == 0 ? 0 : 20).status(2, off == 0 ? 25 : 24);
+            t.conclude();
+            t.status(22, off == 0 ? 60142 : 59656 + 244);
+        }
     }
 
     /** "21: 300 pages of PICTURE FILES have been come to before, in all jobs (ahead of 10 to 20)" (512 calls do not come to that; what is answered here is the class's own) */
