@@ -267,7 +267,7 @@ public final class FilesTest {
         Tester.due("fault", faultOf(with(e(283, 5, 1, 0xFFFFFFF8L), 0)), 5);
         // tags without a meaning are not looked at, but must be in order
         Tester.due("fault", faultOf(with(e(258, 99, 0, 0), 0)), 0);
-        Tester.due("fault", faultOf(with(e(0, 4, 99, 0xFFFFFFFFL), 0)), 0);
+        Tester.due("fault", faultOf(with(e(0, 4, 99, 0xFFFFFFFFL), -1)), 0);
         Tester.due("fault", faultOf(with(e(65535, 0, 0xFFFFFFFFL, 0xFFFFFFFFL), 0)), 0);
         Pictures f = new Pictures(73);
         f.put(0x80, 0);

@@ -35,6 +35,8 @@ public final class PictureBoundsTest {
         fault20();
         fault21();
         fineness();
+        runsOf0Dots();
+        fillAndInk();
         lastStripMayHaveFewerLines();
         pagesBeforeStay();
         Tester.end();
@@ -365,6 +367,20 @@ public final class PictureBoundsTest {
         for (int entries : new int[] {6, 7, 100, 5461, 5462, 32767, 65535}) {
             fault(2, white().set(10, entries, 2));
         }
+        // a good directory, but at an odd place: a byte ahead of it is left out
+        byte[] even = white().file();
+        byte[] odd = Arrays.copyOf(even, size - 1);
+        System.arraycopy(even, 10, odd, 9, size - 10);
+        odd[4] = 9;
+        fault(2, odd);
+        f = white();
+        f.packed(8, 1, "1");
+        even = f.file();
+        Tester.due("the second directory's place", even[72], 78);
+        odd = Arrays.copyOf(even, even.length - 1);
+        System.arraycopy(even, 78, odd, 77, even.length - 78);
+        odd[72] = 77;
+        fault(2, odd);
         // of the next one 0 is the end, all else is a place
         f = white();
         int second = f.packed(8, 1, "1");
@@ -442,7 +458,7 @@ public final class PictureBoundsTest {
             }
         }
         // of tags without a meaning, too; 0 and 65535 are tags
-        fault(0, with(0, e(0, 0, 0, 0), e(1, 99, MOST, MOST), e(65534, 0, 0, 0), e(65535, 0, 0, 0)));
+        fault(0, with(-1, e(0, 0, 0, 0), e(1, 99, MOST, MOST), e(65534, 0, 0, 0), e(65535, 0, 0, 0)));
         Pictures f = new Pictures(73);
         f.page(e(999, 9, 1, 8), e(999, 3, 1, 1));
         fault(3, f);
@@ -585,6 +601,10 @@ public final class PictureBoundsTest {
             Tester t = fresh();
             Tester.due("fault of many strips", t.file(f.file()), more == 2 ? 8 : 0);
             t.status(2, more == 2 ? 0 : 2 + more);
+            // those of another file are not counted
+            if (more < 2) {
+                Tester.due("fault of the next file", t.file(with(0, e(273, 3, 2, 8, 8), e(278, 3, 1, 1), e(279, 3, 2, 1, 1)).file()), 0);
+            }
         }
     }
 
@@ -834,6 +854,55 @@ public final class PictureBoundsTest {
                 // 25 bits of the strip in four bytes: FINENESS stands at 12 and 20
                 Tester.due("FINENESS across", Integer.toUnsignedLong(Integer.reverseBytes((int) t.x.bytesAt(1))), down == 0 ? w[2] : 120);
                 Tester.due("FINENESS down", Integer.toUnsignedLong(Integer.reverseBytes((int) t.x.bytesAt(2))), down == 0 ? 120 : w[2]);
+            }
+        }
+    }
+
+    private static void read(String bits, String... want) {
+        Pictures f = new Pictures(73);
+        f.packed(want[0].length(), want.length, bits);
+        Tester t = fresh();
+        Tester.due("fault of " + bits, t.file(f.file()), 0);
+        t.conclude();
+        for (int j = 0; j < want.length; j++) {
+            t.dots(0, j, 0, want[j]);
+        }
+    }
+
+    /** "The dots between are of the COLOUR": a run of 0 dots has none, and makes no change */
+    private static void runsOf0Dots() {
+        read("001 1000 0000110111 1", "........");
+        read("001 1000 0000110111 001 0111 10 1 1 1 1", ".....###..", ".....###..");
+        read("0000010 001 0000110111 000111 1 1 1", "......##", "......##");
+        read("0000010 001 0000110111 0111 001 010 00110101 1 1 1", "........#", "........#");
+        read("001 00110101 010 001 00110101 10 1 1 1 1", "####....", "####....");
+        read("010 001 0000110111 000111", "..");
+        read("001 00110101 0011 010 001 010 00110101", "#####......#");
+    }
+
+    /** "With FILL 2 the bits of every byte are turned about first; with INK 1 black and white change over." */
+    private static void fillAndInk() {
+        String[][] pages = {{"001 00110101 11 001 0111 10 1", "##..###."}, {"1", "........"}, {"001 00110101 000101", "########"}, {"001 0111 11 1", "..##...."},
+            {"0000010 1", ".....###"}, {"001 00110101 010 0000010 1", "#....###"}};
+        for (String[] p : pages) {
+            for (int fill = 1; fill <= 2; fill++) {
+                for (int ink = 0; ink <= 1; ink++) {
+                    for (int code = 1; code <= 4; code += 3) {
+                        Pictures f = new Pictures(73);
+                        int place = code == 4 ? f.bits(p[0] + " 1 1 1 1 1 1") : f.bits(p[1].replace('#', '1').replace('.', '0').repeat(2));
+                        int length = f.size() - place;
+                        byte[] raw = f.file();
+                        for (int i = place; i < place + length && fill == 2; i++) {
+                            f.set(i, Integer.reverse(raw[i]) >>> 24, 1);
+                        }
+                        f.page(e(256, 3, 1, 8), e(257, 3, 1, 2), e(259, 3, 1, code), e(262, 3, 1, ink), e(266, 3, 1, fill), e(273, 4, 1, place), e(279, 4, 1, length));
+                        Tester t = fresh();
+                        Tester.due("fault", t.file(f.file()), 0);
+                        t.conclude();
+                        String want = ink == 0 ? p[1] : p[1].replace('#', '+').replace('.', '#').replace('+', '.');
+                        t.dots(0, 0, 0, want + "....").dots(0, 1, 0, want + "....");
+                    }
+                }
             }
         }
     }
