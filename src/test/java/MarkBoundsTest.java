@@ -28,6 +28,7 @@ public final class MarkBoundsTest {
         unpackedByRuns();
         unpackedByChanges();
         upToTheLastBlackDot();
+        whatIsLeftOverIsDropped();
         offTheSheet();
         roomFor4096Marks();
         roomFor65536Bytes();
@@ -475,6 +476,31 @@ public final class MarkBoundsTest {
             t.dots(0, 37, 18, ".".repeat(dot) + "#".repeat(40 - dot) + ".");
         }
         fresh().stream("\33*b3W\0\0\0").status(4, 0).status(5, 0).status(21, 1).stream("\33*b0W").status(21, 2).status(4, 0);
+    }
+
+    /** "The place X, Y of the page is the dot i = (X + 1800) * DPI / 7200 (1440 in ORIENTATIONS 1 and 3), j = Y * DPI / 7200" */
+    private static void whatIsLeftOverIsDropped() {
+        for (int dpi : new int[] {75, 150, 300}) {
+            int dot = 7200 / dpi;
+            int wide = 61200 / dot;
+            int high = 79200 / dot;
+            for (int o = 0; o < 4; o++) {
+                int margin = o % 2 == 0 ? 1800 : 1440;
+                // to the dot's last unit, and to the next one's first
+                for (int units : new int[] {0, dot - margin % dot - 1, dot - margin % dot, 2 * dot - margin % dot - 1, 2 * dot - margin % dot}) {
+                    for (int down : new int[] {0, dot - 1, dot, 2 * dot - 1}) {
+                        int i = (units + margin) / dot;
+                        int j = down / dot;
+                        String at = "\33&l" + o + "o0E\33&a" + units / 10 + "." + units % 10 + "h" + down / 10 + "." + down % 10 + "V";
+                        Tester t = new Tester(dpi, 64).stream(at + "\33*c.1h.1v0P").at(units, down);
+                        t.conclude();
+                        int x = o == 0 ? i : o == 1 ? j : o == 2 ? wide - 1 - i : wide - 1 - j;
+                        int y = o == 0 ? j : o == 1 ? high - 1 - i : o == 2 ? high - 1 - j : i;
+                        Tester.due("the dot " + x + ", " + y, t.x.printed(0, y, x / 64), Long.MIN_VALUE >>> x % 64);
+                    }
+                }
+            }
+        }
     }
 
     /** "Dots that would lie off the sheet are none (a mark takes its room all the same)." */

@@ -33,6 +33,7 @@ public final class StateBoundsTest {
         nothingOnTheStack();
         cursorMoves();
         defaults();
+        behindAReset();
         Tester.end();
     }
 
@@ -329,6 +330,8 @@ public final class StateBoundsTest {
         // TOP 75600 and more: no text at all
         for (int top = 126; top <= 132; top++) {
             fresh().stream("\33&l4c" + top + "e1L\33&a0V\n").status(2, 1).stream("\33&l0C\33&a0V\n").at(0, top * 600).status(2, 1);
+            // not even a line of one unit
+            fresh().stream("\33&l4c" + top + "e1l.0067C\33&a0V\n").at(0, top * 600).status(2, 1);
         }
     }
 
@@ -507,6 +510,20 @@ public final class StateBoundsTest {
                 t.stream("\33&a" + last / 10 + "." + last % 10 + "V\n").at(wide, high - 3600).status(2, 0);
                 t.stream("\33&a-90v+.1V\n").at(wide, 4275).status(2, 1);
             }
+        }
+    }
+
+    /** "At first, and behind a RESET: SIZE 2, ORIENTATION 0, H 720, V 1200, DEFAULTS, neither WRAP nor SKIP, LINE END 0, COPIES 1, FONT 0, an empty STACK." */
+    private static void behindAReset() {
+        String[] states = {"\33&l1A", "\33&l1O", "\33&l3O", "\33&k9H", "\33&l5C", "\33&l3E", "\33&l9F", "\33&l20f1L", "\33&a9L", "\33&a40M", "\33&s0C", "\33&l1L", "\33&k1G",
+            "\33&k2G", "\33&k3G", "\33&l7X", "\16", "\33&f0S", "\33&a5c5R", "\33&a5c5R\33&f0s0S", "\33*p9x9Y", "\33&l26a2o4x6c2e30f1L\33&k7h3G\33&a3l50M\33&s0C\16\33&f0S"};
+        for (String state : states) {
+            Refused.same("", state + "\33E", "");
+            // and of a job behind another one
+            Tester t = fresh().stream(state);
+            t.conclude();
+            t.stream("\n\33&l2F\33&s1C" + "A".repeat(90)).at(57600, 5700).stream("\r").at(0, 5700).stream("\33&f1S").at(0, 5700).stream("\33&a+1c+1R").at(720, 6900);
+            t.stream("\t").at(5760, 6900).stream("\33&a0V").at(5760, 3600).stream("\f").status(2, 1).at(5760, 4500).status(11, 0);
         }
     }
 }
