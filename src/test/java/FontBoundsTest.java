@@ -26,6 +26,7 @@ public final class FontBoundsTest {
         pinnedIfThereIsSuchAFont();
         asLongAsThereIsOne();
         choosing();
+        theWishAtFirst();
         chosenFromAnEmptyShelf();
         stepAtMost20000();
         onlyWithSpacing1();
@@ -100,6 +101,39 @@ public final class FontBoundsTest {
             many.append(Tester.plainFont(id, 0));
         }
         fresh().stream(many + "" + many).status(12, 32);
+        StringBuilder large = new StringBuilder(Tester.plainFont(1, 1));
+        for (int code = 65; code < 73; code++) {
+            large.append(Tester.glyph(1, code, 0, 0, 128, 128, 9));
+        }
+        for (String gone : new String[] {"\33*c0F", "\33*c1F", "\33*c2F"}) {
+            fresh().stream(large + gone).status(13, 0).stream(large.toString()).status(13, 8).stream("A").status(5, 2048);
+        }
+        otherFontsStay();
+    }
+
+    /** When a font goes, those behind it keep their attributes, their glyphs, and whether they are PERMANENT */
+    private static void otherFontsStay() {
+        int[][] fonts = {{100, 0, 1000, 1200, 0, 0, 3}, {200, 1, 900, 700, 4, -3, 9}, {300, 0, 57600, 99999, 32767, 7, 65535}, {400, 1, 1, 1, 1, 1, 1}};
+        String[] sets = {"3D", "6H", "9L", "12P"};
+        for (int gone = 0; gone < 4; gone++) {
+            for (int kept = 0; kept < 4; kept++) {
+                StringBuilder s = new StringBuilder();
+                for (int i = 0; i < 4; i++) {
+                    s.append(Tester.font(i + 1, fonts[i])).append(Tester.glyph(i + 1, 65, 0, 0, 8, i + 1, 100 * i + 100, 255, 129));
+                    s.append(i == kept ? "\33*c5F" : "");
+                }
+                s.append("\33*c").append(gone + 1).append("d2F");
+                for (int i = 0; i < 4; i++) {
+                    if (i != gone) {
+                        Tester t = fresh().stream(s + "\33(" + sets[i]).status(12, 3).status(13, 3).status(14, i + 1);
+                        t.stream("A").at(fonts[i][1] == 1 ? 100 * i + 100 : 720, 4500).status(5, i + 1);
+                        // its wish by a pin, for its other attributes
+                        t.stream("\33(" + (i + 1) + "X\33*c77D" + Tester.font(77, fonts[i])).status(14, i + 1).stream("\33(s" + fonts[i][4] + "S").status(14, 77);
+                        t.stream("\33*c1F").status(12, kept == gone ? 0 : 1).status(14, kept == gone ? -1 : kept + 1);
+                    }
+                }
+            }
+        }
     }
 
     private static void anyOtherFSaysNothing() {
@@ -153,6 +187,16 @@ public final class FontBoundsTest {
         t = fresh().stream(two);
         t.conclude();
         t.status(12, 1);
+        // not PERMANENT, also where the one in whose place it comes was the last, or the only one
+        t = fresh().stream(Tester.plainFont(1, 1) + "\33*c5F" + Tester.plainFont(1, 1));
+        t.conclude();
+        t.status(12, 0);
+        t = fresh().stream(Tester.plainFont(1, 1) + Tester.plainFont(2, 1) + "\33*c5f2F" + Tester.plainFont(3, 1));
+        t.conclude();
+        t.status(12, 0);
+        t = fresh().stream(Tester.plainFont(1, 1) + "\33*c5f0F" + Tester.plainFont(3, 1));
+        t.conclude();
+        t.status(12, 0);
     }
 
     /** "The shelf has at most 32 fonts, each ID once"; "no room (what a glyph or font stands in place of takes none" */
@@ -163,7 +207,7 @@ public final class FontBoundsTest {
         }
         fresh().stream(s.toString()).status(12, 31).stream(Tester.plainFont(40, 1)).status(12, 32).status(14, 40)
                 .stream(Tester.plainFont(41, 1)).status(12, 32).status(14, 40).stream(Tester.plainFont(5, 1)).status(12, 32).status(14, 5)
-                .stream("\33*c40d2F").status(12, 31).stream(Tester.plainFont(41, 1)).status(12, 32).status(14, 41);
+                .stream(Tester.plainFont(1, 1)).status(12, 32).status(14, 1).stream("\33*c40d2F").status(12, 31).stream(Tester.plainFont(41, 1)).status(12, 32).status(14, 41);
         s.append(Tester.plainFont(40, 1));
         Refused.nothing(s + "\33*c50D", "\33)s14W" + HEAD);
         // a glyph of a font that found no room is none
@@ -258,6 +302,8 @@ public final class FontBoundsTest {
         // one in whose place a glyph comes takes no room; one that goes leaves it
         t.stream(Tester.glyph(2, 200, 0, 0, 16, 1, 0)).status(13, 256).stream("\33&p1X" + Tester.text(200)).status(4, 1).status(5, 2);
         t.stream("\33*c3F").status(13, 255).stream(Tester.glyph(2, 201, 0, 0, 8, 1, 0)).status(13, 256);
+        // also the first one that came
+        t.stream("\f" + Tester.glyph(1, 0, 0, 0, 24, 1, 0)).status(13, 256).stream("\33(1X\33&p1X\0").status(4, 1).status(5, 3);
         t.stream("\33*c1d2F").status(13, 128).stream(Tester.glyph(2, 202, 0, 0, 8, 1, 0)).status(13, 129);
         Refused.nothing(s + Tester.glyph(2, 200, 0, 0, 8, 1, 0), "\33*c201E\33(s10W\0\0\0\0\0\0\0\0\0\0\33*c200E");
     }
@@ -289,6 +335,9 @@ public final class FontBoundsTest {
         fresh().stream(s + Tester.glyph(1, 80, 0, 0, 8, 8, 0)).stream(Tester.glyph(1, 80, 0, 0, 8, 17, 0) + "P").status(5, 8)
                 .stream(Tester.glyph(1, 80, 0, 0, 8, 16, 0) + "P").status(5, 24);
         Refused.nothing(s + Tester.glyph(1, 80, 0, 0, 8, 8, 0), Tester.glyph(1, 80, 0, 0, 8, 17, 0));
+        // also the first one that came
+        fresh().stream(s + Tester.glyph(1, 80, 0, 0, 128, 1, 0)).status(13, 9).stream(Tester.glyph(1, 65, 0, 0, 128, 128, 7, 255) + "A").status(13, 9).at(7, 4500).status(5, 2048);
+        fresh().stream(s + Tester.glyph(1, 80, 0, 0, 128, 1, 0)).stream(Tester.glyph(1, 65, 0, 0, 127, 127, 7, 255) + Tester.glyph(1, 81, 0, 0, 128, 1, 7)).status(13, 10);
         // the same CODE of another font is another glyph
         fresh().stream(Tester.plainFont(1, 1) + Tester.plainFont(2, 1) + Tester.glyph(1, 65, 0, 0, 8, 1, 0) + Tester.glyph(2, 65, 0, 0, 8, 2, 0)).status(13, 2)
                 .stream("\33(1XA").status(5, 1).stream("\33(2XA").status(5, 3);
@@ -417,6 +466,22 @@ public final class FontBoundsTest {
         // "At last those that are not PERMANENT, if there are any; and of these the one that came last"
         String three = Tester.font(1, PLAIN) + Tester.font(2, PLAIN) + Tester.font(3, PLAIN);
         fresh().stream(three + "\33*c3d5F").status(14, 2).stream("\33*c2d5F").status(14, 1).stream("\33*c1d5F").status(14, 3).stream("\33*c2d4F").status(14, 2);
+    }
+
+    /** "FONT 0 and FONT 1 each have a WISH, ATTRIBUTES, at first 277, 0, 1000, 1200, 0, 0, 3" */
+    private static void theWishAtFirst() {
+        for (int a = 0; a < 7; a++) {
+            for (int by = -1; by <= 1; by += 2) {
+                int[] other = with(a, a == 1 ? 1 : PLAIN[a] + by);
+                boolean none = a == 4 && by < 0;
+                if (!none) {
+                    fresh().stream(Tester.font(1, PLAIN) + Tester.font(2, other)).status(14, 1).status(15, 1);
+                    Tester t = fresh().stream("\33(5U\33(s1p7h7v7s7b7T\33)5U\33)s1p7h7v7s7b7T");
+                    t.conclude();
+                    t.stream(Tester.font(1, PLAIN) + Tester.font(2, other)).status(14, 1).status(15, 1);
+                }
+            }
+        }
     }
 
     /** "There is none if the shelf is empty." */

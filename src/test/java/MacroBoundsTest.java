@@ -140,9 +140,11 @@ public final class MacroBoundsTest {
         String[] changes = {"\33&a5l9M", "\33&k5H", "\33&k3G", "\33&l6C", "\33&l2e3F", "\33&l1L", "\33&s1C", "\16", "\33&f0S", "\33&f1s1S", "\33*p9x9Y", "  \n", "\33&l8D", "\0339",
             "\33&f" + "0s".repeat(30) + "S"};
         for (String c : changes) {
-            // as one of as many bytes that do nothing
-            String call = "\33&f3x8x5Y";
-            Refused.same(Refused.SETUP, macro(1, c) + call, macro(1, "\0".repeat(c.length())) + call);
+            // as one of as many bytes that do nothing and is DONE
+            Refused.same(Refused.SETUP, macro(1, c) + "\33&f3x8x5Y", macro(1, "\0".repeat(c.length())) + "\33&f2x8x5Y");
+            // within another one, too
+            Refused.same(Refused.SETUP, macro(1, c) + macro(2, "\33&f1y3X") + "\33&f2x8x1y8x5Y",
+                    macro(1, "\0".repeat(c.length())) + macro(2, "\33&f1y2X") + "\33&f2x8x1y8x5Y");
         }
         String pages = macro(1, "\33&l6a1o3X");
         fresh().stream(pages + "\33&f3X").status(9, 6).status(10, 1).stream("\f").status(2, 3);

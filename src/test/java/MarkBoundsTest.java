@@ -29,6 +29,7 @@ public final class MarkBoundsTest {
         unpackedByChanges();
         upToTheLastBlackDot();
         whatIsLeftOverIsDropped();
+        wherever();
         offTheSheet();
         roomFor4096Marks();
         roomFor65536Bytes();
@@ -503,6 +504,31 @@ public final class MarkBoundsTest {
         }
     }
 
+    /** Marks at all places beside each other, on white and on black, have their dots and no others */
+    private static void wherever() {
+        String font = Tester.plainFont(1, 1) + Tester.glyph(1, 65, 0, 0, 3, 1, 0, 0xA0);
+        String[] marks = {"\33*c288h96v0P", "A", "\33*r1A\33*b1W\240\33*rC"};
+        String[] dots = {"###", "#.#", "#.#"};
+        for (int x = 57; x <= 133; x++) {
+            for (int m = 0; m < 3; m++) {
+                int units = x * 96 - 1800;
+                String at = "\33&a" + units / 10 + "." + units % 10 + "H\33*p0Y";
+                Tester t = fresh().stream(font + at + marks[m].replace("288h96v", "28.8h9.6v"));
+                t.conclude();
+                t.dots(0, 37, 18, ".".repeat(x - 18) + dots[m] + ".".repeat(200 - x - 3));
+                // on black: as it is; whitened by an opaque source; and by an opaque white ink
+                String field = font + "\33*p0x0Y\33*c9999a4b0P" + at;
+                for (int way = 0; way < 4; way++) {
+                    String[] ways = {"", "\33*v1N", "\33*v1t1O", "\33*v1T"};
+                    t = fresh().stream(field + ways[way] + marks[m].replace("288h96v0P", "28.8h9.6v5P"));
+                    t.conclude();
+                    String want = way == 0 || way == 3 ? "###" : way == 1 ? dots[m] : dots[m].replace('#', '+').replace('.', '#').replace('+', '.');
+                    t.dots(0, 37, 18, "#".repeat(x - 18) + want + "#".repeat(200 - x - 3));
+                }
+            }
+        }
+    }
+
     /** "Dots that would lie off the sheet are none (a mark takes its room all the same)." */
     private static void offTheSheet() {
         String font = Tester.plainFont(1, 1) + Tester.glyph(1, 65, -20, 40, 8, 8, 0, 255, 255, 255, 255, 255, 255, 255, 255)
@@ -621,7 +647,8 @@ public final class MarkBoundsTest {
 
     /** "At first, and behind the end of a job, the INK is black, .. the METHOD 0, and the WISHES are as said below, without PINS." */
     private static void behindTheEndOfAJob() {
-        String[] probes = {"\33*c9a9b5P\33*p0x0Y\33*b1W\240", "\33*cP\33*c1a1b2p3P", "\33*b2W\1\2\33*rC", "\33*rA\33*b32767Y", "\33*b3W\1\2\3", "\33)s14W" + Tester.plainFont(7, 0).substring(11),
+        String field = "\33*p0x0Y\33*c80a80b0P";
+        String[] probes = {"\33*c9b0P", "\33*c9a0P", "\33*c9a9b2p3P", field + "\33*v1T\33*c5P", field + "\33*r1A\33*b1W\240", "\33*c9a9b5P\33*p0x0Y\33*b1W\240", "\33*cP\33*c1a1b2p3P", "\33*b2W\1\2\33*rC", "\33*rA\33*b32767Y", "\33*b3W\1\2\3", "\33)s14W" + Tester.plainFont(7, 0).substring(11),
             "\33&f0XAA\33&f1X\33&f0y2X", Tester.font(1, 277, 0, 1000, 1200, 0, 0, 3) + Tester.font(2, 309, 0, 850, 900, 2, -2, 7), "A\n\t\16A"};
         for (String probe : probes) {
             Tester first = fresh().stream(probe);

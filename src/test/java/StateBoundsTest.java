@@ -327,6 +327,12 @@ public final class StateBoundsTest {
         // TOP 75000, LENGTH 600: a line of 600 fits behind the top, and no more
         fresh().stream("\33&l4c125e1L\33&a0V\n").at(0, 75600).status(2, 0).stream("\n").status(2, 1);
         fresh().stream("\33&l4c126e1L\33&a0V\n").at(0, 76050).status(2, 1);
+        // TOP and LENGTH together are 75600, wherever the top is
+        for (int top = 0; top <= 120; top += 30) {
+            int v = (75000 - top * 600) / 10;
+            fresh().stream("\33&l4c" + top + "e1L\33&a" + v + "V\n").at(0, 75600).status(2, 0);
+            fresh().stream("\33&l4c" + top + "e1L\33&a" + v + ".1V\n").status(2, 1);
+        }
         // TOP 75600 and more: no text at all
         for (int top = 126; top <= 132; top++) {
             fresh().stream("\33&l4c" + top + "e1L\33&a0V\n").status(2, 1).stream("\33&l0C\33&a0V\n").at(0, top * 600).status(2, 1);
