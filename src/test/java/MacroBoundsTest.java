@@ -5,6 +5,7 @@ public final class MacroBoundsTest {
     public static void main(String[] args) {
         ids0To32767();
         upToTheNextRowOfBytes();
+        notOfAnotherMacro();
         goesAtOnce();
         aSecondN0BeginsAnew();
         noneAsLongAsItIsRead();
@@ -49,7 +50,7 @@ public final class MacroBoundsTest {
     /** "up to the next row of bytes 27, 38, 102, 49, 88, is nothing but the bytes of the macro ..; these five bytes are not of it" */
     private static void upToTheNextRowOfBytes() {
         String[] within = {"", "A", "\33", "\33&", "\33&f", "\33&f1", "\33&f1x", "\33&f1Y", "\33&f01X", "\33&f+1X", "\33&f 1X", "\33\33&f1", "\33&\33&f", "\33&f\33&f1\33", "\33&f11X",
-            "\33E\f\n\33&l1O", "\33&f0X", "\33&f6X\33&f2X", "\0\377\33\0", "1X", "f1X", "&f1X", "\33&f1.X", "\33&F1X"};
+            "\33E\f\n\33&l1O", "\33&f0X", "\33&f6X\33&f2X", "\0\377\33\0", "1X", "f1X", "&f1X", "A&f1X", "\33A&f1X", "\33&f\33A&f1X", "\33&f1.X", "\33&F1X"};
         for (String w : within) {
             fresh().stream("\33&f9y0X" + w).status(18, 1).status(16, 0).status(17, 0).status(2, 0).at(0, 4500).stream(ENDS).status(18, 0).status(16, 1).status(17, w.length());
             // it goes on in the next streams
@@ -58,6 +59,15 @@ public final class MacroBoundsTest {
                 t.status(18, 1).stream("" + c);
             }
             t.status(18, 0).status(16, 1).status(17, w.length()).stream("A").at(720, 4500);
+        }
+    }
+
+    /** A row of bytes that is begun in one job, or for one macro, does not end another one */
+    private static void notOfAnotherMacro() {
+        for (int begun = 1; begun < 5; begun++) {
+            Tester t = fresh().stream("\33&f9y0XAAA" + ENDS.substring(0, begun));
+            t.conclude();
+            t.stream("\33&f9y0X" + ENDS.substring(begun)).status(18, 1).stream(ENDS).status(18, 0).status(16, 1).status(17, 5 - begun);
         }
     }
 
@@ -174,6 +184,12 @@ public final class MacroBoundsTest {
     private static void ifTheJobHasNotFailedInIt() {
         fresh().stream(macro(1, "\33&a9CA\16\f\17") + "\f".repeat(40) + "\33&f3X").status(3, 20).at(7200, 4500).status(11, 1);
         fresh().stream(macro(1, "\33&a9CA\16\f\17") + "\f".repeat(39) + "\33&f3X").status(3, 0).at(0, 4500).status(11, 0);
+        // what is left of a macro does not come in the next job
+        for (String way : new String[] {"2", "3"}) {
+            Tester t = fresh().stream(macro(1, "\f\16BBB\f") + macro(2, "\33&f1y" + way + "X\16B") + "\f".repeat(40) + "\33&f2y" + way + "x" + way + "X").status(3, 20);
+            t.conclude();
+            t.stream("A").at(720, 4500).status(11, 0).status(2, 0).status(19, 0).status(16, 0).stream(macro(1, "AA") + "\33&f" + way + "X").at(way.equals("2") ? 2160 : 720, 4500);
+        }
         // nor is it by one that is outside of the one in which it failed
         fresh().stream(macro(1, "\33&a9C\33&f2y3X") + macro(2, "\16A\f") + "\f".repeat(40) + "\33&f1y3X").status(3, 20).at(7200, 4500).status(11, 1);
     }
@@ -187,8 +203,33 @@ public final class MacroBoundsTest {
         fresh().stream(three + "\33&f1y9x7X").status(16, 0);
         fresh().stream(three + "\33&f2y10x7X").status(16, 2).status(17, 3);
         fresh().stream(three + "\33&f1y8X").status(16, 2);
+        otherMacrosStay();
         Refused.nothing(Refused.SETUP, "\33&f10X");
         Refused.nothing(Refused.SETUP, "\33&f6y9x5Y");
+    }
+
+    /** When a macro goes, the others keep their bytes, and whether they are PERMANENT */
+    private static void otherMacrosStay() {
+        String[] bytes = {"\33&a7C", "\33&a11CAB", "", "\33&a17C\n", "\33&a23CA\n\n"};
+        int[][] at = {{7, 0}, {13, 0}, {0, 0}, {17, 1}, {24, 2}};
+        for (int gone = 0; gone < 5; gone++) {
+            for (int kept = 0; kept < 5; kept++) {
+                StringBuilder s = new StringBuilder();
+                for (int i = 0; i < 5; i++) {
+                    s.append(macro(i + 1, bytes[i])).append(i == kept ? "\33&f10X" : "");
+                }
+                // it goes, or is read anew
+                for (String way : new String[] {"8X", "0X" + ENDS}) {
+                    String all = s + "\33&f" + (gone + 1) + "y" + way;
+                    for (int i = 0; i < 5; i++) {
+                        if (i != gone) {
+                            fresh().stream(all + "\33&f" + (i + 1) + "y2X").at(720 * at[i][0], 4500 + 1200 * at[i][1]);
+                        }
+                    }
+                    fresh().stream(all + "\33&f7X").status(16, kept == gone ? 0 : 1).status(17, kept == gone ? 0 : bytes[kept].length());
+                }
+            }
+        }
     }
 
     private static void anyOtherNSaysNothing() {
@@ -247,6 +288,8 @@ public final class MacroBoundsTest {
         for (String way : new String[] {"2", "3"}) {
             fresh().stream(macro(1, "\33&f2y" + way + "X") + macro(2, "\33&f3y" + way + "X\16") + macro(3, "C\33*c9a9b0P") + "\33&f1y" + way + "X").status(4, 0).status(11, way.equals("2") ? 1 : 0);
         }
+        // one without bytes, too
+        fresh().stream(macro(1, "\33&f2y2XA") + macro(2, "\33&f3y2x3XA") + macro(3, "") + "\33&f1y2X").at(1440, 4500).status(19, 8 + 10);
         // a macro within itself
         fresh().stream(macro(1, "A\33&f1y2X") + "\33&f2X").at(1440, 4500).status(19, 16);
     }

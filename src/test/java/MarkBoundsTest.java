@@ -27,6 +27,7 @@ public final class MarkBoundsTest {
         unpackedInPairs();
         unpackedByRuns();
         unpackedByChanges();
+        theSeedAtFirst();
         upToTheLastBlackDot();
         whatIsLeftOverIsDropped();
         wherever();
@@ -409,6 +410,10 @@ public final class MarkBoundsTest {
         row(16, "\33*b1m2W\3\201", "\201\201");
         row(16, "\33*b1m4W\0\1\3\2", "\1\2");
         row(0, "\33*b1m4W\177\0\0\1", "\0".repeat(128) + "\1");
+        // the odd one is not there, whatever other data stood behind it before
+        row(0, "\33*b4w\377\377\377\377\33*b1m3W\0\201\3", "\201");
+        row(0, "\33*b4w\377\377\377\377\33*b1m1W\3", "");
+        row(0, "\33*b1m6W\1\201\0\1\2\3", "\201\201\1\3\3\3");
         fresh().stream("\33*b1m4W\377\0\377\1").status(5, 512);
         fresh().stream("\33*b1m6W\377\0\377\0\177\1").status(5, 640);
         fresh().stream("\33*b1m8W\377\0\377\0\177\0\0\1").status(5, 0).status(21, 1);
@@ -426,6 +431,12 @@ public final class MarkBoundsTest {
         row(0, "\33*b2m2W\376\201", "\201\201\201");
         fresh().stream("\33*b2m2W\201\1").status(5, 128);
         row(0, "\33*b2m1W\201", "");
+        // one behind the other, and ended whatever other data stood behind them before
+        row(0, "\33*b2m8W\377\1\0\2\376\3\200\0", "\1\1\2\3\3\3");
+        row(0, "\33*b2m7W\1\4\5\377\6\0\7", "\4\5\6\6\7");
+        row(0, "\33*b6w\377\377\377\377\377\377\33*b2m3W\3\1\2", "\1\2");
+        row(0, "\33*b6w\377\377\377\377\377\377\33*b2m3W\0\1\376", "\1");
+        row(0, "\33*b6w\377\377\377\377\377\377\33*b2m1W\376", "");
         row(0, "\33*b2m3W\0\1\377", "\1");
         row(0, "\33*b2m3W\200\0\1", "\1");
         row(0, "\33*b2m5W\200\200\200\377\1", "\1\1");
@@ -458,12 +469,37 @@ public final class MarkBoundsTest {
         fresh().stream("\33*b3m5W\37\377\377\141\7").status(5, 31 + 510 + 97 + 1);
         fresh().stream("\33*b3m5W\37\377\377\142\7").status(5, 640);
         fresh().stream("\33*b3m5W\37\377\377\143\7").status(5, 0);
+        // c / 32 + 1 bytes, and then the next change
+        for (int more = 0; more < 8; more++) {
+            for (int offset : new int[] {0, 1, 15, 16, 30}) {
+                StringBuilder data = new StringBuilder(Tester.text(32 * more + offset));
+                StringBuilder want = new StringBuilder("\0".repeat(offset));
+                for (int i = 0; i <= more; i++) {
+                    data.append(Tester.text(40 + i));
+                    want.append(Tester.text(40 + i));
+                }
+                row(0, "\33*b3m" + (data.length() + 4) + "W" + data + "\1\201\0\202", want + "\0\201\202");
+                row(0, "\33*b40w" + "\0".repeat(39) + "\1\33*b0m40w" + "\0".repeat(40) + "3m" + (data.length() - 1) + "W" + data.substring(0, data.length() - 1),
+                        want.substring(0, want.length() - 1));
+            }
+        }
         // it ends within an offset: nothing comes behind that
         row(0, seed + "1W\37", "\1\2\3");
         row(0, seed + "2W\37\377", "\1\2\3");
         row(0, seed + "3W\37\377\377", "\1\2\3");
         row(0, seed + "4W\0\7\37\377", "\7\2\3");
         row(16, "\33*b2w\1\2\33*b3m4W\140\4\5\6", "\4\5");
+    }
+
+    /** "A raster has, when it is opened, .. its ROW number 0, and a SEED, a row of bytes that are 0" */
+    private static void theSeedAtFirst() {
+        fresh().stream("\33*b3W\1\2\3\33*rC\33*rA").status(21, 0).stream("\33*b3m0W").status(4, 1).status(21, 1);
+        fresh().stream("\33*b3W\1\2\3\33*rC\33*b3m2W\1\1").status(4, 2).status(5, 5);
+        Tester t = fresh().stream("\33*b3W\1\2\3");
+        t.conclude();
+        t.stream("\33*b3m0W").status(4, 0).status(21, 1);
+        // the METHOD may be told ahead of the raster
+        fresh().stream("\33*b1M\33*rA\33*b2W\1\201").status(5, 2);
     }
 
     /** "it is a mark .., its dots up to the last black one .. (none, if no dot is black); and ROW grows by 1" */
@@ -648,7 +684,7 @@ public final class MarkBoundsTest {
     /** "At first, and behind the end of a job, the INK is black, .. the METHOD 0, and the WISHES are as said below, without PINS." */
     private static void behindTheEndOfAJob() {
         String field = "\33*p0x0Y\33*c80a80b0P";
-        String[] probes = {"\33*c9b0P", "\33*c9a0P", "\33*c9a9b2p3P", field + "\33*v1T\33*c5P", field + "\33*r1A\33*b1W\240", "\33*c9a9b5P\33*p0x0Y\33*b1W\240", "\33*cP\33*c1a1b2p3P", "\33*b2W\1\2\33*rC", "\33*rA\33*b32767Y", "\33*b3W\1\2\3", "\33)s14W" + Tester.plainFont(7, 0).substring(11),
+        String[] probes = {"\33*c9b0P", "\33*c9a0P", "\33*c9a9b2p3P", field + "\33*v1T\33*c5P", field + "\33*r1A\33*b1W\240", "\33*c9a9b5P\33*p0x0Y\33*b1W\240", "\33*cP\33*c1a1b2p3P", "\33*b2W\1\2\33*rC", "\33*rA\33*b32767Y", "\33*b7W\1\2\3\4\5\6\7", "\33)s14W" + Tester.plainFont(7, 0).substring(11),
             "\33&f0XAA\33&f1X\33&f0y2X", Tester.font(1, 277, 0, 1000, 1200, 0, 0, 3) + Tester.font(2, 309, 0, 850, 900, 2, -2, 7), "A\n\t\16A"};
         for (String probe : probes) {
             Tester first = fresh().stream(probe);

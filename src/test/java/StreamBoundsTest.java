@@ -56,6 +56,16 @@ public final class StreamBoundsTest {
             int want = b == 'a' ? 4320 : group || value ? 720 : b == 27 ? 1440 : 2160;
             fresh().stream(text(27, '&', b) + "5CA").at(want, 4500);
         }
+        // 5X pins a font, if there is no group: so it tells a group from an END
+        String fonts = Tester.plainFont(5, 0) + Tester.plainFont(6, 0);
+        for (int b = 0; b < 256; b++) {
+            boolean value = b >= '0' && b <= '9' || b == '+' || b == '-' || b == '.';
+            fresh().stream(fonts + text(27, '(', b) + "5X").status(14, b == '0' || b == '+' ? 5 : 6);
+            if (!value) {
+                fresh().stream(fonts + text(27, '(', b) + "5x5X").status(14, 6);
+            }
+        }
+        fresh().stream(fonts + "\33(5X").status(14, 5);
         // the group stays for all fields of a sequence, and is gone with it
         fresh().stream("\33&a1c1r2CA\33&5C").at(2160, 5700);
     }
