@@ -148,8 +148,13 @@ public final class MacroBoundsTest {
     /** "3: it is CALLED: likewise, but the state without SIZE, ORIENTATION and COPIES is kept before and is again so behind it" */
     private static void calledGivesBack() {
         String[] changes = {"\33&a5l9M", "\33&k5H", "\33&k3G", "\33&l6C", "\33&l2e3F", "\33&l1L", "\33&s1C", "\16", "\33&f0S", "\33&f1s1S", "\33*p9x9Y", "  \n", "\33&l8D", "\0339",
-            "\33&f" + "0s".repeat(30) + "S"};
+            "\33&f" + "0s".repeat(30) + "S", "\33&f1s1S\33&a1c1R\33&f0S\33&a2c2R\33&f0S", "\33&s0C", "\33&l0L", "\33&k0G", "\17"};
+        // from three states, so that each truth and number is once as it is at first, and once not
+        String[] states = {"\33&l0L\33&k2G\16", "\33&s1C\33&k3G"};
         for (String c : changes) {
+            for (String state : states) {
+                Refused.same(Refused.SETUP + state, macro(1, c) + "\33&f3x8x5Y", macro(1, "\0".repeat(c.length())) + "\33&f2x8x5Y");
+            }
             // as one of as many bytes that do nothing and is DONE
             Refused.same(Refused.SETUP, macro(1, c) + "\33&f3x8x5Y", macro(1, "\0".repeat(c.length())) + "\33&f2x8x5Y");
             // within another one, too
