@@ -139,6 +139,8 @@ public final class FontBoundsTest {
     private static void anyOtherFSaysNothing() {
         for (String n : new String[] {"6", "7", "8", "10", "256", "32767"}) {
             Refused.nothing("\33*c" + n + "F");
+            // of a PERMANENT font, too
+            Refused.nothing(Refused.SETUP + "\33*c2D", "\33*c" + n + "F");
         }
     }
 
@@ -443,7 +445,11 @@ public final class FontBoundsTest {
         chosen("s1P", 2, new int[] {277, 1, 1000, 1200, 0, 0, 3}, new int[] {277, 1, 900, 1200, 0, 0, 3});
         chosen("s0P", 2, new int[] {277, 1, 1000, 1200, 0, 0, 3}, new int[] {277, 1, 900, 1200, 0, 0, 3});
         chosen("s0P", 1, with(2, 1000), with(2, 1100), new int[] {277, 1, 1000, 1200, 0, 0, 3});
+        chosen("s1P", 2, with(2, 1000), with(2, 900));
+        chosen("s1P", 2, with(2, 1000), with(2, 1100));
         // "nearest to that of the WISH; of two as near the greater one"
+        chosen("s12V", 1, with(3, 5000), with(3, 6000));
+        chosen("s500V", 1, with(3, 20000), with(3, 10000));
         chosen("s12V", 1, with(3, 1201), with(3, 1199));
         chosen("s12V", 2, with(3, 1202), with(3, 1199));
         chosen("s12V", 2, with(3, 1198), with(3, 1201));
@@ -463,6 +469,18 @@ public final class FontBoundsTest {
         chosen("s-1B", 2, with(5, 1), with(5, 0), with(5, 7));
         chosen("s-7B", 2, with(5, 7), with(5, -6), with(5, -5));
         chosen("s-6B", 1, with(5, -7), with(5, -5));
+        // "those that are left by these steps": one that has gone is not looked at, however near it is
+        chosen("s10H", 1, with(2, 1100), with(2, 1200), new int[] {5, 0, 1000, 1200, 0, 0, 3});
+        chosen("s10H", 1, with(2, 900), with(2, 800), new int[] {5, 0, 950, 1200, 0, 0, 3});
+        chosen("s10V", 1, with(3, 1100), with(3, 1300), new int[] {5, 0, 1000, 1000, 0, 0, 3});
+        chosen("s10V", 1, with(3, 800), with(3, 700), new int[] {5, 0, 1000, 900, 0, 0, 3});
+        chosen("s1B", 1, with(5, 3), with(5, 4), new int[] {5, 0, 1000, 1200, 0, 2, 3});
+        chosen("s5B", 1, with(5, 3), with(5, 2), new int[] {5, 0, 1000, 1200, 0, 4, 3});
+        chosen("s-1B", 1, with(5, -3), with(5, -4), new int[] {5, 0, 1000, 1200, 0, -2, 3});
+        chosen("s-5B", 1, with(5, -3), with(5, -2), new int[] {5, 0, 1000, 1200, 0, -4, 3});
+        chosen("s9S", 2, with(4, 1), with(4, 2), new int[] {5, 0, 1000, 1200, 9, 0, 3});
+        chosen("s9T", 2, with(6, 1), with(6, 2), new int[] {5, 0, 1000, 1200, 0, 0, 9});
+        chosen("s1P", 2, with(4, 1), with(4, 2), new int[] {5, 1, 1000, 1200, 0, 0, 3});
         // "At last those that are not PERMANENT, if there are any; and of these the one that came last"
         String three = Tester.font(1, PLAIN) + Tester.font(2, PLAIN) + Tester.font(3, PLAIN);
         fresh().stream(three + "\33*c3d5F").status(14, 2).stream("\33*c2d5F").status(14, 1).stream("\33*c1d5F").status(14, 3).stream("\33*c2d4F").status(14, 2);

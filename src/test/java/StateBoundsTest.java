@@ -28,6 +28,7 @@ public final class StateBoundsTest {
         lineEnd0To3();
         leftLessThanRight();
         rightAboveLeft();
+        clearedMargins();
         wrapIf0();
         stackOf20();
         nothingOnTheStack();
@@ -426,6 +427,12 @@ public final class StateBoundsTest {
         Refused.nothing("\33&a3M");
         Refused.nothing("\33&a0M");
         Refused.something("\33&a4M");
+    }
+
+    /** "9: LEFT is 0, RIGHT is WIDTH": X stays where it is */
+    private static void clearedMargins() {
+        fresh().stream("\33&a10l20M\0339").at(7200, 4500).stream("\r").at(0, 4500).stream("\33&a79CAA").at(57600, 4500);
+        fresh().stream("\33&l1O\33&a10l20M\0339\r").at(0, 4500).stream("\33&a105CAA").at(76320, 4500).stream("\33E").status(2, 1);
     }
 
     /** "& s C: WRAP if n is 0, not if 1" */

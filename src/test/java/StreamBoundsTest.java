@@ -19,6 +19,7 @@ public final class StreamBoundsTest {
         onlyTheFirst4096Count();
         otherBytesAreCharacters();
         passedOverBehindAFault();
+        othersArePassedOver();
         Tester.end();
     }
 
@@ -287,5 +288,28 @@ public final class StreamBoundsTest {
         Tester.due("no more parts", t.submit(0, 1), Tester.STATE);
         t.status(2, 40).conclude();
         t.status(23, 40).status(16, 1).stream("A").at(720, 4500);
+    }
+
+    /** "All others of OTHERS are passed over.": of each FAMILY and GROUP the ENDs that have no meaning, in one sequence */
+    private static void othersArePassedOver() {
+        String[][] known = {{"&l", "AOXCDEFLW"}, {"&k", "HGW"}, {"&a", "LMCHRVW"}, {"&s", "CW"}, {"&f", "SYXW"}, {"&p", "XW"}, {"*p", "XYW"}, {"*c", "ABHVDEFGPW"},
+            {"*v", "TNOW"}, {"*t", "RW"}, {"*r", "ABCSTW"}, {"*b", "MYW"}, {"(s", "PHVSBTW"}, {")s", "PHVSBTW"}, {"(", "ABCDEFGHIJKLMNOPQRSTUVXW"}, {")", "ABCDEFGHIJKLMNOPQRSTUVXW"},
+            {"&", "W"}, {"*", "W"}, {"&c", "W"}, {"&t", "W"}, {"&b", "W"}, {"&r", "W"}, {"*l", "W"}, {"*a", "W"}, {"*s", "W"}, {"*k", "W"}, {"*f", "W"}, {"(c", "W"}, {")p", "W"}, {"(b", "W"},
+            {"!l", "W"}, {"\"s", "W"}, {"#l", "W"}, {"$a", "W"}, {"%k", "W"}, {"'f", "W"}, {"+c", "W"}, {",p", "W"}, {"-b", "W"}, {".r", "W"}, {"/v", "W"}, {"%", "W"}, {"/", "W"}, {"'", "W"}};
+        for (String[] k : known) {
+            for (int value : new int[] {0, 1, 2, 6, 10}) {
+                StringBuilder s = new StringBuilder("\33" + k[0]);
+                for (int end = 65; end <= 94; end++) {
+                    if (k[1].indexOf(end) < 0) {
+                        s.append(value).append((char) (end + 32));
+                    }
+                }
+                Refused.nothing(Refused.SETUP, s.append(value).append('@').toString());
+            }
+            // DATA that nobody asks for
+            if (!k[0].equals("*b") && !k[0].equals("(s") && !k[0].equals(")s")) {
+                Refused.nothing(Refused.SETUP, "\33" + k[0] + "14W" + "\1\25\1\0\1\0\0\0\1\0\0\0\0\3");
+            }
+        }
     }
 }
