@@ -83,7 +83,7 @@ final class Refused {
     }
 
     private static List<Long> toldBy(String before, String refused, String probe) {
-        Tester t = Tester.alone(75, 64);
+        Tester t = Tester.alone(300, 64);
         t.stream(before + refused);
         List<Long> all = new ArrayList<>();
         addAll(all, t);

@@ -297,7 +297,7 @@ public final class StreamBoundsTest {
             {"&", "W"}, {"*", "W"}, {"&c", "W"}, {"&t", "W"}, {"&b", "W"}, {"&r", "W"}, {"*l", "W"}, {"*a", "W"}, {"*s", "W"}, {"*k", "W"}, {"*f", "W"}, {"(c", "W"}, {")p", "W"}, {"(b", "W"},
             {"!l", "W"}, {"\"s", "W"}, {"#l", "W"}, {"$a", "W"}, {"%k", "W"}, {"'f", "W"}, {"+c", "W"}, {",p", "W"}, {"-b", "W"}, {".r", "W"}, {"/v", "W"}, {"%", "W"}, {"/", "W"}, {"'", "W"}};
         for (String[] k : known) {
-            for (int value : new int[] {0, 1, 2, 6, 10}) {
+            for (int value : new int[] {0, 1, 2, 6, 10, 75}) {
                 StringBuilder s = new StringBuilder("\33" + k[0]);
                 for (int end = 65; end <= 94; end++) {
                     if (k[1].indexOf(end) < 0) {
