@@ -3,8 +3,8 @@ import java.util.List;
 
 /**
  * A printer that is not asked beyond its 512 calls, for what it answers then is free: ahead of that a
- * new one is made, which is told again all that was told. Only a run that is itself near 512 calls
- * (of bounds that can not be come to with fewer) goes on with the printer that it has.
+ * new one is made, which is told again all that was told. Only a run that tells it near 512 things or
+ * more goes on with the printer that it has.
  */
 final class FreshPrinter {
     static final int MOST_CALLS = 512;

@@ -587,29 +587,25 @@ public final class MarkBoundsTest {
         t.dots(0, 824, 636 - 36 - 3, ".###.").dots(0, 823, 636 - 36 - 3, ".#.#.").dots(0, 822, 636 - 36 - 3, ".###.");
     }
 
-    private static String rules(int n) {
-        return "\33*c1a1b" + "0p".repeat(n - 1) + "0P";
-    }
-
     /** "A sheet has room for 4096 marks"; "A mark for which there is no room is not laid, and the sheet is OVERRUN." */
     private static void roomFor4096Marks() {
         String font = Tester.plainFont(1, 1) + Tester.glyph(1, 65, 0, 0, 8, 1, 0, 255) + "\33*r1A";
         for (String more : new String[] {"\33*c0P", "A", "\33*b1W\1"}) {
-            Tester t = fresh().stream(font + rules(4095)).status(4, 4095).status(6, 0).stream(more).status(4, 4096).status(6, 0);
+            Tester t = fresh().stream(font + Tester.rules(4095)).status(4, 4095).status(6, 0).stream(more).status(4, 4096).status(6, 0);
             int bytes = t.x.status(5);
             t.stream(more).status(4, 4096).status(6, 1).status(5, bytes);
         }
         // it is not laid: a rule of all the sheet
-        Tester t = fresh().stream(rules(4096) + "\33*p0x0Y\33*c9999a9999b0P").status(6, 1);
+        Tester t = fresh().stream(Tester.rules(4096) + "\33*p0x0Y\33*c9999a9999b0P").status(6, 1);
         t.conclude();
         t.dots(0, 100, 0, ".".repeat(64));
-        t = fresh().stream(rules(4095) + "\33*p0x0Y\33*c9999a9999b0P").status(6, 0);
+        t = fresh().stream(Tester.rules(4095) + "\33*p0x0Y\33*c9999a9999b0P").status(6, 0);
         t.conclude();
         t.dots(0, 100, 18, "#".repeat(40));
         // a row without room is the seed all the same, and ROW has grown
-        fresh().stream(rules(4096) + "\33*b1W\1").status(6, 1).status(21, 1).stream("\f\33*b3m0W").status(4, 1).status(21, 2);
+        fresh().stream(Tester.rules(4096) + "\33*b1W\1").status(6, 1).status(21, 1).stream("\f\33*b3m0W").status(4, 1).status(21, 2);
         // a character without room has its step
-        fresh().stream(font + "\33*c65e\33(s10W\0\0\0\0\0\10\0\1\0\11" + rules(4096) + "A").at(9, 4500).status(6, 1);
+        fresh().stream(font + "\33*c65e\33(s10W\0\0\0\0\0\10\0\1\0\11" + Tester.rules(4096) + "A").at(9, 4500).status(6, 1);
     }
 
     /** "and 65536 bytes of dots: DEPTH * ((WIDTH + 7) / 8) for each GLYPH .., and (m + 7) / 8 for a ROW of m dots" */
@@ -638,13 +634,13 @@ public final class MarkBoundsTest {
                 + Tester.glyph(1, 68, 0, 0, 1, 1, 5);
         fresh().stream(font + "ABC").status(4, 0).status(5, 0).at(15, 4500).stream("D").status(4, 1).status(5, 1).stream("\33E").status(2, 1);
         // they need no room, either
-        fresh().stream(font + rules(4096) + "ABC").status(4, 4096).status(6, 0).stream("D").status(6, 1);
+        fresh().stream(font + Tester.rules(4096) + "ABC").status(4, 4096).status(6, 0).stream("D").status(6, 1);
     }
 
     /** "25: sheets that were OVERRUN when they were to be PRINTED, in this job (each once, whatever its COPIES, also if the job FAILED with it)" */
     private static void overrunSheets() {
-        String over = rules(4096) + "\33*c0P";
-        Tester t = fresh().stream(over).status(25, 0).status(6, 1).stream("\f").status(25, 1).status(6, 0).stream(rules(4096) + "\f").status(25, 1);
+        String over = Tester.rules(4096) + "\33*c0P";
+        Tester t = fresh().stream(over).status(25, 0).status(6, 1).stream("\f").status(25, 1).status(6, 0).stream(Tester.rules(4096) + "\f").status(25, 1);
         t.stream(over + "\33&l5X\f").status(25, 2).status(2, 7).stream(over + "\33E").status(25, 3);
         t.conclude();
         t.status(25, 0);

@@ -108,7 +108,7 @@ public final class StateBoundsTest {
     private static void ejectIfDue() {
         String glyph = Tester.plainFont(1, 1) + Tester.glyph(1, 'A', 0, 0, 8, 1, 5, 255) + Tester.glyph(1, 'B', 0, 0, 0, 0, 5)
                 + Tester.glyph(1, 'C', 0, 0, 8, 1, 5) + Tester.glyph(1, 'D', 16383, 0, 8, 1, 5, 255);
-        String full = "\33*c1a1b" + "0p".repeat(4095) + "0P";
+        String full = Tester.rules(4096);
         String[] due = {glyph + "A", "A", glyph + "B", glyph + "C", glyph + "D", glyph + "Z", "\33&p1X\0", "\33*c1a1b0P", "\33*c1a1b1P", "\33*c.1h.1v5P",
             "\33*c1a1b50g2P", "\33*c1a1b6g3P", "\33*b1W\1", "\33*b1W\200", "\33*r1S\33*b1W\200", "\33*r1A\33*b30000y1W\1",
             "\33*p9999x9999Y\33*c1a1b0P", "\33*v1T\33*c1a1b5P", "\33*v1TA", "\33*r16S\33*b3W\0\1\377"};

@@ -185,6 +185,12 @@ final class Tester {
         return this;
     }
 
+    /** Rules of one dot, most of them by a macro, so that they need few bytes of the tape. */
+    static String rules(int n) {
+        String left = n % 256 == 0 ? "" : "\33*c" + "0p".repeat(n % 256 - 1) + "0P";
+        return "\33*c1a1B\33&f99y0X\33*c" + "0p".repeat(255) + "0P\33&f1X" + "\33&f2X".repeat(n / 256) + left;
+    }
+
     /** A font of an ID with its attributes: SET, SPACING, PITCH, HEIGHT, STYLE, WEIGHT, FACE. */
     static String font(int id, int... a) {
         return "\33*c" + id + "D\33)s14W" + two(a[0]) + text(a[1]) + two(a[2]) + text(0) + text(a[3] >> 16) + two(a[3])
