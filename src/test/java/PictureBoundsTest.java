@@ -772,6 +772,24 @@ public final class PictureBoundsTest {
         f.packed(8, 2, "1 0001 111");
         Tester.due("fault", t.file(f.file()), 13);
         t.conclude();
+        // .. also if the lines ahead of it have many bytes, for which there is no room, coded or plain
+        t = fresh();
+        t.file(most);
+        t.file(heights(1780 * 8 - 24));
+        f = new Pictures(73);
+        f.packed(8, 200, "1".repeat(199) + "0001 111");
+        Tester.due("fault", t.file(f.file()), 13);
+        t.conclude();
+        t = fresh();
+        t.file(most);
+        t.file(heights(1780 * 8 - 24));
+        Pictures plain = new Pictures(77);
+        int dots = plain.put(170, 85, 51, 204, 15, 240, 85, 170, 1, 2, 3, 4, 5, 6, 7);
+        int places = plain.numbers(4, dots, dots);
+        int lengths = plain.numbers(4, 8, 7);
+        plain.page(e(256, 3, 1, 8), e(257, 3, 1, 16), e(273, 4, 2, places), e(278, 3, 1, 8), e(279, 4, 2, lengths));
+        Tester.due("fault", t.file(plain.file()), 18);
+        t.status(2, 23).conclude();
         // pages: 40 are there, one more is not
         t = fresh().stream("\f".repeat(39));
         Tester.due("fault", t.file(heights(1)), 0);
