@@ -195,6 +195,18 @@ public final class MacroBoundsTest {
             t.conclude();
             t.stream("A").at(720, 4500).status(11, 0).status(2, 0).status(19, 0).status(16, 0).stream(macro(1, "AA") + "\33&f" + way + "X").at(way.equals("2") ? 2160 : 720, 4500);
         }
+        // nor does what other X's of that sequence said
+        for (int act : new int[] {2, 6, 8, 9}) {
+            Tester t = fresh().stream(macro(1, "\f") + macro(2, "BB") + "\33&f10X" + "\f".repeat(40) + "\33&f1y2x2y" + act + "x" + act + "X").status(3, 20).status(16, 2);
+            t.conclude();
+            t.status(16, 1).stream("").status(16, 1).at(0, 4500).stream("A").status(16, 1).at(720, 4500);
+            t.conclude();
+            t.status(16, 1);
+        }
+        // a macro that is being read then is so up to the end of the job
+        Tester reads = fresh().stream(macro(1, "\f") + "\f".repeat(40) + "\33&f7y0x1y2Xab").status(3, 20).status(18, 1).status(16, 1);
+        reads.conclude();
+        reads.status(18, 0).status(16, 0).stream("A\33&f1X").status(18, 0).status(16, 0).at(720, 4500);
         // nor is it by one that is outside of the one in which it failed
         fresh().stream(macro(1, "\33&a9C\33&f2y3X") + macro(2, "\16A\f") + "\f".repeat(40) + "\33&f1y3X").status(3, 20).at(7200, 4500).status(11, 1);
     }

@@ -671,6 +671,9 @@ public final class MarkBoundsTest {
         fresh().stream(full + "A\33&l6a1OA").status(3, 20).status(9, 6).status(10, 0).at(0, 4500);
         fresh().stream(full + "A\33&l3o6A").status(3, 20).status(9, 2).status(10, 3).at(0, 4500);
         fresh().stream(full + "\33&l6A\16\33&k5h\33&l8DA\33EA").status(3, 20).status(9, 2).status(11, 0).at(0, 4500);
+        // X is brought to the page then, too
+        fresh().stream(full + "\33&s0C\33&k1200H\33*p9999YA").status(3, 20).at(57600, 4500);
+        fresh().stream(full + "\33&s0C\33&k800H\33&a1L\33*p9999YA").status(3, 20).at(57600, 4500);
         // marks: a glyph that wrapped is not on the sheet, nor is what was there
         fresh().stream(Tester.plainFont(1, 1) + Tester.glyph(1, 65, 0, 0, 8, 8, 500) + full + "\33*c9a9b0P\33&s0C\33&a80C\33*p9999YA").status(3, 20).at(500, 4500).status(4, 0).status(5, 0);
         // X's of a sequence that ends there say nothing more

@@ -130,7 +130,13 @@ public final class StreamBoundsTest {
 
     /** "what a STREAM was in the midst of (a sequence, its DATA, a macro) goes on in the next STREAM of the job" */
     private static void goesOnInTheNextStream() {
-        String whole = "A\33&a+1.5c2RB\33&p3XA\nB\33*b3W\1\2\3\33&f4y0XCC\33&f1X\33&f2x1wZ0Y\33=D";
+        goesOn("A\33&a+1.5c2RB\33&p3XA\nB\33*b3W\1\2\3\33&f4y0XCC\33&f1X\33&f2x1wZ0Y\33=D");
+        goesOn("\33&a12.3456789c-.0987R\33&k0007.65h0.G\33*p+00123.4567x-1.2345Y\33)s-2.5b7.25v12.375H\33\33\33&\33&l\33&l6\33&l6\1\33&l2.a1.5Z");
+        goesOn(Refused.SETUP);
+    }
+
+    /** Cut anywhere, and cut into small pieces, the stream does the same. */
+    private static void goesOn(String whole) {
         Tester one = fresh().stream(whole);
         for (int cut = 0; cut <= whole.length(); cut++) {
             Tester t = fresh().stream(whole.substring(0, cut)).stream(whole.substring(cut));
@@ -139,8 +145,10 @@ public final class StreamBoundsTest {
             }
         }
         Tester t = fresh();
-        for (int i = 0; i < whole.length(); i++) {
-            t.stream(whole.substring(i, i + 1)).stream("");
+        // in pieces as small as 512 calls let them be
+        int piece = 1 + whole.length() / 140;
+        for (int i = 0; i < whole.length(); i += piece) {
+            t.stream(whole.substring(i, Math.min(whole.length(), i + piece))).stream("");
         }
         for (int which = 0; which < 26; which++) {
             t.status(which, one.x.status(which));
