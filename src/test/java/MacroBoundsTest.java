@@ -42,6 +42,11 @@ public final class MacroBoundsTest {
         for (int id : new int[] {0, 1, 32766, 32767}) {
             fresh().stream(macro(id, "AB") + "\33&f" + (id == 0 ? 1 : 0) + "y2X").at(0, 4500).stream("\33&f" + id + "y2X").at(1440, 4500);
         }
+        // every bit of it counts
+        for (int bit = 1; bit <= 16384; bit *= 2) {
+            int other = 21845 ^ bit;
+            fresh().stream(macro(21845, "A") + macro(other, "BB") + "\33&f21845y2X").status(16, 2).at(720, 4500).stream("\33&f" + other + "y2X").at(2160, 4500);
+        }
         fresh().stream(macro(32767, "AB") + "\33&f5y32768y2X").at(1440, 4500);
         fresh().stream("\33&f0XAB" + ENDS + "\33&f7y-7y2X").at(1440, 4500);
         fresh().stream("\33&f0XAB" + ENDS + "\33&f2X").at(1440, 4500);
