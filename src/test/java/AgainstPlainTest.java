@@ -2,6 +2,8 @@ import java.util.Arrays;
 
 /** Holds SheetPrinter, in all it tells, against the plain printer on streams and files made by chance. */
 public final class AgainstPlainTest {
+    /* Much is asked of the file behind that, within the 512 calls of an object. */
+    private static final int MOST_TOLD = 400;
     private static int wrong = 0;
     private static long seed;
 
@@ -28,7 +30,7 @@ public final class AgainstPlainTest {
         Maker m = new Maker(seed);
         int dpi = m.r.nextInt(12) == 0 ? 300 : m.r.nextInt(6) == 0 ? 150 : 75;
         int band = m.r.nextInt(3) == 0 ? m.r.nextInt(5) - 1 : m.r.nextInt(1200);
-        FreshPrinter x = new FreshPrinter(dpi, band);
+        FreshPrinter x = new FreshPrinter(dpi, band, false);
         PlainPrinter y = new PlainPrinter(dpi, band);
         int jobs = 1 + m.r.nextInt(3);
         for (int job = 0; job < jobs; job++) {
@@ -36,6 +38,9 @@ public final class AgainstPlainTest {
             for (int part = 0; part < parts; part++) {
                 boolean pictures = m.r.nextInt(4) == 0;
                 byte[] bytes = pictures ? m.pictures() : m.stream(m.r.nextInt(m.r.nextInt(10) == 0 ? 400 : 60));
+                if (x.told() + bytes.length / 20 > MOST_TOLD) {
+                    break;
+                }
                 if (!pictures && m.r.nextInt(3) == 0) {
                     // a stream goes on in the next one, wherever it was
                     int cut = m.r.nextInt(bytes.length + 1);

@@ -157,7 +157,7 @@ public final class FaceBoundsTest {
      * that; what is answered here is the class's own.)
      */
     private static void falseIfThereIsNoRoom() {
-        Tester t = Tester.alone(75, 16);
+        Tester t = Tester.beyond(75, 16);
         for (int i = 0; i < 3276; i++) {
             Tester.due("tape", t.tape(i == 3275 ? 0x41414141 : 0, 0, 0, 0, i == 3275 ? 0x4142 : 0) ? 1 : 0, 1);
         }
@@ -444,8 +444,8 @@ public final class FaceBoundsTest {
 
     /** Asking changes nothing: not even a call that throws, or asks for what is not there. */
     private static void asking() {
-        FreshPrinter asked = new FreshPrinter(75, 16);
-        FreshPrinter not = new FreshPrinter(75, 16);
+        FreshPrinter asked = new FreshPrinter(75, 16, false);
+        FreshPrinter not = new FreshPrinter(75, 16, false);
         for (int i = 0; i < 30; i++) {
             int[] n = {0x1B2A6339, 0x61396230, 0x500C411B, i % 2 == 0 ? 0x2661352B : 0x26613443, 0x0A1B2661};
             Tester.due("tape", asked.tape(n[0], n[1], n[2], n[3], n[4]) ? 1 : 0, not.tape(n[0], n[1], n[2], n[3], n[4]) ? 1 : 0);

@@ -57,15 +57,13 @@ public final class FacePromisesTest {
         t.tape(-1, -1, -1, -1, -1);
         t.submit(0, 3);
         t.at(720 * 4, 6900);
-        for (int i = 0; i < 3276; i++) {
-            t.x.tape(0, 0, 0, 0, 0);
+        for (int i = 0; i < 400; i++) {
+            Tester.due("tape", t.tape(0, 0, 0, 0, i == 399 ? 0x41 : 0) ? 1 : 0, 1);
         }
-        t.status(1, 65520);
-        Tester.due("tape without room", t.x.tape(1, 2, 3, 4, 5) ? 1 : 0, 0);
-        t.status(1, 65520);
-        Tester.due("submit", t.x.submit(0, 20), 0);
-        t.status(1, 0);
-        Tester.due("tape", t.x.tape(1, 2, 3, 4, 5) ? 1 : 0, 1);
+        t.status(1, 8000);
+        Tester.due("submit", t.submit(0, 20), 0);
+        t.status(1, 0).at(720 * 5, 6900);
+        Tester.due("tape", t.tape(1, 2, 3, 4, 5) ? 1 : 0, 1);
     }
 
     private static void submit() {

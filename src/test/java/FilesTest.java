@@ -19,7 +19,6 @@ public final class FilesTest {
         fineness();
         sizeOfPictures();
         fullFile();
-        manyPictures();
         partsOfAJob();
         Tester.end();
     }
@@ -595,6 +594,7 @@ public final class FilesTest {
         t.status(2, 22);
         Tester.due("conclude", t.conclude(), 20);
         t.status(22, 58220);
+        t = fresh();
         Tester.due("fault", t.file(heights(many)), 0);
         Tester.due("fault", t.file(heights(many)), 0);
         Tester.due("just as many", t.file(heights(1780 * 8 - 24)), 0);
@@ -603,6 +603,7 @@ public final class FilesTest {
         Tester.due("conclude", t.conclude(), 20);
         t.status(22, 60142).status(23, 23);
         // a fault of the lines is told ahead of that of the file
+        t = fresh();
         t.file(heights(many));
         t.file(heights(many));
         t.file(heights(1780 * 8 - 24));
@@ -611,6 +612,7 @@ public final class FilesTest {
         Tester.due("fault", t.file(f.file()), 13);
         t.conclude();
         // copies: those that fit are there; a strip of a sheet has 107 bytes
+        t = fresh();
         t.file(heights(many));
         t.file(heights(many));
         t.stream("\33&l99X\f").status(3, 20).status(2, 22 + 1780 / 250 + (1780 % 250 >= 107 ? 1 : 0));
@@ -632,37 +634,6 @@ public final class FilesTest {
         t.stream("\f".repeat(38));
         Tester.due("pages before the fault stay", t.file(pages.file()), 13);
         t.status(2, 40);
-    }
-
-    private static void manyPictures() {
-        Tester t = fresh();
-        Pictures f = new Pictures(73);
-        for (int p = 0; p < 40; p++) {
-            f.packed(1, 1, "1");
-        }
-        for (int i = 0; i < 7; i++) {
-            Tester.due("fault", t.file(f.file()), 0);
-            t.conclude();
-        }
-        // pages with a fault have been come to, files with a fault in their directories have not
-        Tester.due("fault", t.file(new Pictures(73).file()), 2);
-        t.conclude();
-        for (int i = 0; i < 5; i++) {
-            Tester.due("fault", t.file(with(e(256, 3, 1, 10001), 0).file()), 19);
-            t.conclude();
-        }
-        Pictures g = new Pictures(73);
-        for (int p = 0; p < 16; p++) {
-            g.packed(1, 1, p < 15 ? "1" : "0001 1111");
-        }
-        Tester.due("the 301st page", t.file(g.file()), 21);
-        t.status(2, 15).conclude();
-        t.status(23, 15);
-        Tester.due("no more", t.file(with(e(256, 3, 1, 10001), 0).file()), 21);
-        t.conclude();
-        Tester.due("but for faults 1 to 9", t.file(new Pictures(73).file()), 2);
-        t.conclude();
-        t.status(23, 0);
     }
 
     private static void partsOfAJob() {

@@ -3,25 +3,28 @@ import java.util.List;
 
 /**
  * A printer that is not asked beyond its 512 calls, for what it answers then is free: ahead of that a
- * new one is made, which is told again all that was told. Only a run that tells it near 512 things or
- * more goes on with the printer that it has.
+ * new one is made, which is told again all that was told. A run may not tell it more than fits into
+ * that; only one that says so goes on beyond, with the printer that it has.
  */
 final class FreshPrinter {
     static final int MOST_CALLS = 512;
-    private static final int MOST_TOLD = 448;
+    /** As many may be told, so that a new printer, told them again, can be asked some things. */
+    static final int MOST_TOLD = 496;
     private static final int TAPE = 0;
     private static final int SUBMIT = 1;
     private static final int CONCLUDE = 2;
 
     private final int dpi;
     private final int band;
+    private final boolean beyond;
     private final List<int[]> told = new ArrayList<>();
     private SheetPrinter printer;
     private int calls;
 
-    FreshPrinter(int dpi, int band) {
+    FreshPrinter(int dpi, int band, boolean beyond) {
         this.dpi = dpi;
         this.band = band;
+        this.beyond = beyond;
         printer = new SheetPrinter(dpi, band);
     }
 
@@ -59,8 +62,15 @@ final class FreshPrinter {
         return asked().status(which);
     }
 
+    int told() {
+        return told.size();
+    }
+
     private SheetPrinter asked() {
-        if (calls >= MOST_CALLS && told.size() <= MOST_TOLD) {
+        if (calls >= MOST_CALLS && !beyond) {
+            if (told.size() > MOST_TOLD) {
+                throw new AssertionError("the test tells a printer more than 512 calls can");
+            }
             printer = new SheetPrinter(dpi, band);
             calls = 0;
             for (int[] call : told) {

@@ -117,14 +117,14 @@ public final class MacroBoundsTest {
     private static void roomFor16384Bytes() {
         for (int n = 16383; n <= 16386; n++) {
             boolean room = n <= 16384;
-            Tester t = Tester.alone(75, 16).stream(macro(1, "\0".repeat(n - 1) + "A"));
+            Tester t = Tester.beyond(75, 16).stream(macro(1, "\0".repeat(n - 1) + "A"));
             t.status(16, room ? 1 : 0).status(17, room ? n : 0).status(18, 0).stream("\33&f2X").at(room ? 720 : 0, 4500);
         }
-        Tester t = Tester.alone(75, 16).stream(macro(1, "\0".repeat(16000)) + macro(2, "\0".repeat(384))).status(16, 2).status(17, 16384);
+        Tester t = Tester.beyond(75, 16).stream(macro(1, "\0".repeat(16000)) + macro(2, "\0".repeat(384))).status(16, 2).status(17, 16384);
         t.stream(macro(3, "")).status(16, 3).stream(macro(4, "A")).status(16, 3).stream(macro(2, "\0".repeat(385))).status(16, 2).status(17, 16000);
         t.stream(macro(2, "\0".repeat(384))).status(16, 3).status(17, 16384);
         // far more than there can be room for
-        t = Tester.alone(75, 16).stream(macro(1, "\33&f1".repeat(8000)) + "A").status(16, 0).status(18, 0).at(720, 4500);
+        t = Tester.beyond(75, 16).stream(macro(1, "\33&f1".repeat(8000)) + "A").status(16, 0).status(18, 0).at(720, 4500);
     }
 
     /** "when it ends, room is asked for (of 32, and for its bytes beside those of the others by then): if there is none, it is none" */
@@ -136,7 +136,7 @@ public final class MacroBoundsTest {
         // the X's behind the n 0 make room
         fresh().stream(s + "\33&f40y0x3y8XBB" + ENDS).status(16, 32).status(17, 33).stream("\33&f40y2X").at(1440, 4500);
         fresh().stream(s + "\33&f40y0XBB" + ENDS).status(16, 32).status(17, 32);
-        Tester t = Tester.alone(75, 16).stream(macro(1, "\0".repeat(16384)) + "\33&f2y0x1y8X" + "\0".repeat(16384) + ENDS).status(16, 1).status(17, 16384);
+        Tester t = Tester.beyond(75, 16).stream(macro(1, "\0".repeat(16384)) + "\33&f2y0x1y8X" + "\0".repeat(16384) + ENDS).status(16, 1).status(17, 16384);
         t.stream("\33&f3y0X" + "A" + ENDS).status(16, 1);
     }
 

@@ -61,13 +61,9 @@ public final class MacrosTest {
         t.status(16, 32).status(17, 32).stream("\33&f32y2X").at(0, 4500).stream("\33&f31y2X").at(720, 4500);
         t.stream(macro(31, "BB")).status(16, 32).status(17, 33);
         // when reading began there was no room, when it ends there is
-        t = fresh().stream(macro(1, "A".repeat(16384))).status(17, 16384).stream(macro(2, "")).status(16, 2).stream(macro(3, "B")).status(16, 2);
-        t.stream("\33&f3y0x1y8XB" + ENDS).status(16, 2).status(17, 1).stream("\33&f3y2X").at(720, 4500);
-        fresh().stream(macro(1, "A".repeat(16385))).status(16, 0).status(17, 0).status(18, 0);
-        fresh().stream(macro(1, "A".repeat(20000)) + "B").status(16, 0).at(720, 4500);
-        fresh().stream(macro(1, "A".repeat(16380)) + macro(2, "AAAAA")).status(16, 1).stream(macro(2, "AAAA")).status(17, 16384);
+        t.stream("\33&f40y0x1y8XCCC" + ENDS).status(16, 32).status(17, 35).stream("\33&f40y2X").at(2880, 4500);
         // one in whose place a macro comes takes no room
-        fresh().stream(macro(1, "A".repeat(16000)) + macro(1, "A".repeat(16384))).status(17, 16384);
+        fresh().stream(macro(1, "A".repeat(4000)) + macro(1, "A".repeat(4001))).status(16, 1).status(17, 4001);
     }
 
     private static void doing() {
@@ -173,12 +169,12 @@ public final class MacrosTest {
     }
 
     private static void bytesHad() {
-        Tester t = fresh().stream(macro(1, "\0".repeat(16384)) + "\33&f2x2x2X").status(19, 49152);
+        Tester t = fresh().stream(macro(1, "\0".repeat(4096)) + "\33&f2x2x2x2x2x2x2x2X\33&f2x2x2x2x2x2x2X").status(19, 61440);
         t.stream("\33&f2X").status(19, 65536).stream("\33&f3X").status(19, 65536);
         t.stream("\33&f6X" + macro(2, "") + macro(3, "A") + "\33&f2y2x3y2X").status(19, 65536).at(0, 4500);
         t.conclude();
         t.status(19, 0).stream(macro(1, "A") + "\33&f2X").status(19, 1).at(720, 4500);
-        t = fresh().stream(macro(1, "\0".repeat(16377)) + macro(2, "AAA") + macro(3, "BBBB") + "\33&f1y2x2x2x2X").status(19, 65508);
+        t = fresh().stream(macro(1, "\0".repeat(5459)) + macro(2, "AAA") + macro(3, "BBBB") + "\33&f1y2x2x2x2x2x2x2x2X\33&f2x2x2x2X").status(19, 65508);
         t.stream("\33&f3y2x2x2x2x2x2X").status(19, 65532).stream("\33&f2y2X").status(19, 65535).at(27 * 720, 4500);
         t.stream("\33&f2y3X").at(27 * 720, 4500).status(19, 65535);
     }

@@ -462,9 +462,8 @@ public final class MarksTest {
     }
 
     private static void overrun() {
-        StringBuilder s = new StringBuilder("\33*c1a1b");
-        s.append("0p".repeat(4095)).append("0P");
-        Tester t = fresh().stream(s.toString());
+        String s = Tester.rules(4096);
+        Tester t = fresh().stream(s);
         t.status(4, 4096).status(6, 0).stream("\33*c0P").status(4, 4096).status(6, 1).stream("\f").status(6, 0).status(4, 0).status(25, 1);
         t.stream("A\f").status(25, 1).stream(s + "\33*c0P\33&l3X\33E").status(25, 2).status(2, 5).conclude();
         t.status(25, 0);
@@ -476,7 +475,7 @@ public final class MarksTest {
         t.stream("\33*c1a1b0P").status(6, 0).status(4, 33).stream("\33*b1W\1").status(6, 1).status(4, 33).stream("\f").status(25, 2);
         // off the sheet a mark takes its room all the same; what has no room makes the sheet due
         fresh().stream("\33*r1A\33*b30000y1W\1").status(4, 1).status(5, 1);
-        t = fresh().stream(s.toString()).stream("\f\f").status(2, 2).stream(s + "\33*c0P");
+        t = fresh().stream(s).stream("\f\f").status(2, 2).stream(s + "\33*c0P");
         t.stream("\f".repeat(38) + "A\f").status(3, 20).status(2, 40).status(25, 1).status(6, 0).conclude();
         t.stream("\f".repeat(40) + s + "\33*c0P\f").status(3, 20).status(25, 1).status(4, 0);
     }

@@ -823,7 +823,7 @@ public final class PictureBoundsTest {
 
     /** "21: 300 pages of PICTURE FILES have been come to before, in all jobs (ahead of 10 to 20)" (512 calls do not come to that; what is answered here is the class's own) */
     private static void fault21() {
-        Tester t = Tester.alone(75, 16);
+        Tester t = Tester.beyond(75, 16);
         Pictures forty = new Pictures(73);
         for (int p = 0; p < 40; p++) {
             forty.packed(1, 1, "1");

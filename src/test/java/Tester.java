@@ -14,17 +14,22 @@ final class Tester {
     private final PlainPrinter y;
 
     Tester(int dpi, int band) {
-        this(dpi, band, true);
+        this(dpi, band, true, false);
     }
 
-    private Tester(int dpi, int band, boolean beside) {
-        x = new FreshPrinter(dpi, band);
+    private Tester(int dpi, int band, boolean beside, boolean beyond) {
+        x = new FreshPrinter(dpi, band, beyond);
         y = beside ? new PlainPrinter(dpi, band) : null;
     }
 
     /** A printer without a plain one beside it. */
     static Tester alone(int dpi, int band) {
-        return new Tester(dpi, band, false);
+        return new Tester(dpi, band, false, false);
+    }
+
+    /** A printer for bounds that 512 calls do not come to: what it answers there is the class's own. */
+    static Tester beyond(int dpi, int band) {
+        return new Tester(dpi, band, false, true);
     }
 
     static void due(String what, long got, long want) {
