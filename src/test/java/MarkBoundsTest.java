@@ -27,11 +27,13 @@ public final class MarkBoundsTest {
         unpackedInPairs();
         unpackedByRuns();
         unpackedByChanges();
+        rowsOf4096Bytes();
         theSeedAtFirst();
         upToTheLastBlackDot();
         whatIsLeftOverIsDropped();
         wherever();
         offTheSheet();
+        toTheEdges();
         roomFor4096Marks();
         roomFor65536Bytes();
         noMarkWithoutDots();
@@ -491,6 +493,20 @@ public final class MarkBoundsTest {
         row(16, "\33*b2w\1\2\33*b3m4W\140\4\5\6", "\4\5");
     }
 
+    /** "(only the first 4096 of them count)": rows of as many bytes, and of more, whatever they say at their end */
+    private static void rowsOf4096Bytes() {
+        String[] ways = {"\0\125", "\37\377", "\377\377", "\177\1\2\3", "\200", "\340\1", "\2\377\0", "\5\0\0\0\0\0\0\37"};
+        for (int method = 0; method <= 3; method++) {
+            for (int n = 4094; n <= 4098; n++) {
+                for (String way : ways) {
+                    String data = way.repeat(n / way.length() + 1).substring(0, n);
+                    Tester t = fresh().stream("\33&l6a1O\33*b" + method + "m3W\1\2\3\33*b" + n + "W" + data).status(21, 2);
+                    t.conclude();
+                }
+            }
+        }
+    }
+
     /** "A raster has, when it is opened, .. its ROW number 0, and a SEED, a row of bytes that are 0" */
     private static void theSeedAtFirst() {
         fresh().stream("\33*b3W\1\2\3\33*rC\33*rA").status(21, 0).stream("\33*b3m0W").status(4, 1).status(21, 1);
@@ -585,6 +601,18 @@ public final class MarkBoundsTest {
         t = fresh().stream(Tester.plainFont(1, 1) + Tester.glyph(1, 65, 18, 37, 3, 3, 0, 224, 160, 224) + "\33&l2O\33*p0x0YA");
         t.conclude();
         t.dots(0, 824, 636 - 36 - 3, ".###.").dots(0, 823, 636 - 36 - 3, ".#.#.").dots(0, 822, 636 - 36 - 3, ".###.");
+    }
+
+    /** Lines across the sheet, from the place 0, 0 to its edges, whatever its size and turn */
+    private static void toTheEdges() {
+        for (int dpi : new int[] {75, 150, 300}) {
+            for (int size : new int[] {1, 2, 3, 6, 26}) {
+                for (int orientation = 0; orientation < 4; orientation++) {
+                    Tester t = new Tester(dpi, 100).stream("\33&l" + size + "a" + orientation + "O\33*p0x0Y\33*c32767a32767b1g3P");
+                    Tester.due("conclude", t.conclude(), 0);
+                }
+            }
+        }
     }
 
     /** "A sheet has room for 4096 marks"; "A mark for which there is no room is not laid, and the sheet is OVERRUN." */
