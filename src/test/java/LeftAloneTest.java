@@ -63,7 +63,8 @@ public final class LeftAloneTest {
             "*rA", "*bM", "*bY", "*rB", "*rC", "&fY", "&fX"};
         for (String command : commands) {
             int at = command.length() - 1;
-            for (String value : new String[] {"0", "1", "2", "3", "4", "5", "6", "8", "9", "10", "-1", "+7.5", "300"}) {
+            boolean many = command.equals("&fX") || command.equals("*cF") || command.equals("&lD");
+            for (String value : (many ? "0 1 2 3 4 5 6 7 8 9 10 12 -1 +7.5 300" : "0 1 2 3 4 5 -1 +7.5 300").split(" ")) {
                 String end = command.equals("&fX") && value.equals("0") ? "ZZ\33&f1X" : "";
                 all.add("\33" + command.substring(0, at) + value + command.substring(at) + end);
             }

@@ -606,7 +606,8 @@ public final class MarkBoundsTest {
     /** Lines across the sheet, from the place 0, 0 to its edges, whatever its size and turn */
     private static void toTheEdges() {
         for (int dpi : new int[] {75, 150, 300}) {
-            for (int size : new int[] {1, 2, 3, 6, 26}) {
+            // the plain printer takes long for a sheet of so many dots: so of these the widest one, and one whose sides are odd
+            for (int size : dpi == 300 ? new int[] {6, 26} : new int[] {1, 2, 3, 6, 26}) {
                 for (int orientation = 0; orientation < 4; orientation++) {
                     Tester t = new Tester(dpi, 100).stream("\33&l" + size + "a" + orientation + "O\33*p0x0Y\33*c32767a32767b1g3P");
                     Tester.due("conclude", t.conclude(), 0);
